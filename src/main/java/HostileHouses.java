@@ -314,15 +314,18 @@ public final class HostileHouses {
 
         /** The position in which a game begins. */
         void fill(int seedsInEach) {
-            clear();
+            startGame();
             for (int house = 0; house < HOUSES; house++) {
                 seeds[house] = seedsInEach;
             }
+            stores[0] = 0;
+            stores[1] = 0;
+            player = 0;
         }
 
         /** The position that the numbers of a text tell: the houses, the stores, the player. */
         void fillFrom(int[] numbers) {
-            clear();
+            startGame();
             for (int house = 0; house < HOUSES; house++) {
                 seeds[house] = numbers[house];
             }
@@ -331,14 +334,10 @@ public final class HostileHouses {
             giveTurnTo(numbers[HOUSES + PLAYERS] == 0 ? 0 : 1);
         }
 
-        private void clear() {
+        private void startGame() {
             for (int house = 0; house < HOUSES; house++) {
-                seeds[house] = 0;
                 visits[house] = 0;
             }
-            stores[0] = 0;
-            stores[1] = 0;
-            player = 0;
             over = false;
             moves = 0;
         }
@@ -396,27 +395,24 @@ public final class HostileHouses {
             report.clear(house);
             boolean goesOn = true;
             for (int added = 0; goesOn && added <= settings[LAPS]; added++) {
-                goesOn = sowLap(report.lastHouse, added < settings[LAPS], settings, report);
+                goesOn = sowLap(report.lastHouse, settings, report);
             }
             moves++;
             giveTurnTo(1 - player);
         }
 
-        /** Sows one lap and says whether the next one is added; if none is, it captures what there is to capture. */
-        private boolean sowLap(int start, boolean mayAdd, int[] settings, Report report) {
+        /** Sows one lap, and says whether its last house lets the move go on; a move that goes on captures nothing. */
+        private boolean sowLap(int start, int[] settings, Report report) {
             int end = sowHand(start, settings, report);
             boolean wasEmpty = seeds[end] == 1;
             boolean wasHostile = isHostile(end, settings);
             visits[end]++;
             report.laps++;
             report.lastHouse = end;
-            if (!wasEmpty && !wasHostile && mayAdd) {
-                return true;
-            }
             if (wasEmpty && ownerOf(end) == player) {
                 captureAcross(end, report);
             }
-            return false;
+            return !wasEmpty && !wasHostile;
         }
 
         /** Sows all seeds of a house, pays the tolls, and returns the house of the last seed. */
