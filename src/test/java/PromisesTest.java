@@ -1,614 +1,464 @@
-import java.util.function.ToIntFunction;
+import java.io.IOException;
 
-/** One method a promise: ordinary inputs, the edges that the document names, and wrong inputs. */
-public final class PromisesTest {
-    private static int promise;
-    private static int wrong;
+/** The promises of the document, sentence by sentence: the last methods list them, each with its test. */
+public final class PromisesTest extends Checks {
+    private static final int LEAST = Integer.MIN_VALUE;
+    private static final int MOST = Integer.MAX_VALUE;
+    private static final String ZEROS = "0,0,0,0,0,0,0,0,0,0,0,0/0,0/0";
 
-    private static void due(String call, long got, long want) {
-        if (got != want) {
-            wrong++;
-            System.out.println("promise " + promise + ": " + call + " answered " + got + ", due is " + want);
-        }
-    }
+    // ---- 1: a new object
 
-    // ---- helpers
-
-    private static long packed(String characters) {
-        long number = 0;
-        for (int i = 0; i < characters.length(); i++) {
-            number = number << 8 | characters.charAt(i);
-        }
-        return number;
-    }
-
-    private static HostileHouses write(HostileHouses x, String text) {
-        for (int at = 0; at < text.length(); at += 8) {
-            x.put(packed(text.substring(at, Math.min(at + 8, text.length()))));
-        }
-        return x;
-    }
-
-    /** A new object whose game begins with a position. */
-    private static HostileHouses at(String position) {
-        HostileHouses x = write(new HostileHouses(), position);
-        x.read();
-        return x;
-    }
-
-    /** All that the object tells, but for the moves behind the eighth. */
-    private static String view(HostileHouses x) {
-        StringBuilder all = new StringBuilder();
-        for (int what = 0; what < 14; what++) {
-            all.append(x.count(what)).append(' ');
-        }
-        for (int house = 0; house < 12; house++) {
-            for (int what = 0; what < 3; what++) {
-                all.append(x.house(house, what)).append(' ');
-            }
-        }
-        for (int what = 0; what < 5; what++) {
-            all.append(x.last(what)).append(' ');
-        }
-        for (int move = 0; move < 8; move++) {
-            all.append(x.moved(move)).append(' ');
-        }
-        return all.append(x.fault()).toString();
-    }
-
-    /** The view without the length of the pad, its fault and the changes that can be undone. */
-    private static String game(HostileHouses x) {
-        String[] numbers = view(x).split(" ");
-        numbers[12] = numbers[13] = numbers[numbers.length - 1] = "";
-        return String.join(" ", numbers);
-    }
-
-    /** A game with a few changes, a full history, one saved slot, and a text with a fault on the pad. */
-    private static HostileHouses busy() {
+    private static void firstSettings() {
         HostileHouses x = new HostileHouses();
-        x.set(HostileHouses.VISITS, 1);
-        for (int i = 0; i < 7; i++) {
-            x.play(1);
-        }
-        x.save(1);
-        write(x, "1,2,x");
-        return x;
-    }
-
-    private static HostileHouses over() {
-        return at("1,0,0,0,0,0,0,0,0,0,0,2/9,0/1");
-    }
-
-    private static void error(String call, HostileHouses x, ToIntFunction<HostileHouses> made, int want) {
-        String before = view(x);
-        due(call, made.applyAsInt(x), want);
-        if (!view(x).equals(before)) {
-            due(call + " changed something; 0", 1, 0);
-        }
-    }
-
-    /** A call that tells something, or wants to, changes nothing. */
-    private static void tells(String call, HostileHouses x, ToIntFunction<HostileHouses> made, int want) {
-        error(call, x, made, want);
-    }
-
-    private static void seeds(HostileHouses x, int... want) {
-        for (int house = 0; house < 12; house++) {
-            due("house(" + house + ", 0)", x.house(house, 0), want[house]);
-        }
-    }
-
-    private static void stores(HostileHouses x, int first, int second) {
-        due("count(3)", x.count(3), first);
-        due("count(4)", x.count(4), second);
-    }
-
-    private static void last(HostileHouses x, int... want) {
-        for (int what = 0; what < 5; what++) {
-            due("last(" + what + ")", x.last(what), want[what]);
-        }
-    }
-
-    private static final int[] FAR = {Integer.MIN_VALUE, Integer.MAX_VALUE, -7, 1000};
-
-    // ---- the promises
-
-    private static void aNewObject() {
-        HostileHouses x = new HostileHouses();
-        int[] want = {0, 0, -6, 0, 0, 48, 0, 4, 3, 6, 1, 0, 0, 0};
-        for (int what = 0; what < want.length; what++) {
-            due("count(" + what + ")", x.count(what), want[what]);
-        }
+        counts(x, 0, 0, -6, 0, 0, 48, 0, 4, 3, 6, 1, 0, 0, 0);
         seeds(x, 4, 4, 4, 4, 4, 4, 4, 4, 4, 4, 4, 4);
-        for (int house = 0; house < 12; house++) {
-            due("house(h, 1)", x.house(house, 1), 0);
-            due("house(h, 2)", x.house(house, 2), 0);
-        }
-        due("last(0)", x.last(0), -6);
-        due("undo()", x.undo(), -5);
-        due("restore(0)", x.restore(0), -5);
-        due("restore(1)", x.restore(1), -5);
-        HostileHouses other = new HostileHouses();
+        visits(x, 0, 0, 0, 0, 0, 0, 0, 0, 0, 0, 0, 0);
+        last(x, -6, -6, -6, -6, -6);
+        due("moved(0)", x.moved(0), -1);
+        due("an empty pad: fault()", x.fault(), 0);
+        due("an empty history: undo()", x.undo(), -5);
+        due("an empty slot: restore(0)", x.restore(0), -5);
+        due("an empty slot: restore(1)", x.restore(1), -5);
+        // objects share nothing
+        HostileHouses other = busy();
         other.set(HostileHouses.SEEDS, 9);
-        other.move(0);
-        due("a second object's count(7)", new HostileHouses().count(7), 4);
-        due("the first object's count(6)", x.count(6), 0);
+        counts(x, 0, 0, -6, 0, 0, 48, 0, 4, 3, 6, 1, 0, 0, 0);
+        counts(new HostileHouses(), 0, 0, -6, 0, 0, 48, 0, 4, 3, 6, 1, 0, 0, 0);
+        due("another object's slot: restore(1)", x.restore(1), -5);
     }
 
-    private static void set() {
-        int[] first = {4, 3, 6, 1};
-        int[] lowest = {1, 1, 0, 0};
-        int[] highest = {9, 9, 20, 3};
-        for (int i = 0; i < 4; i++) {
-            int setting = i;
-            HostileHouses x = new HostileHouses();
-            due("set to the highest", x.set(setting, highest[i]), first[i]);
-            due("count", x.count(7 + i), highest[i]);
-            due("set to the lowest", x.set(setting, lowest[i]), highest[i]);
-            due("count", x.count(7 + i), lowest[i]);
-            error("set too low", x, y -> y.set(setting, lowest[setting] - 1), -2);
-            error("set too high", x, y -> y.set(setting, highest[setting] + 1), -2);
-            for (int far : FAR) {
-                error("set far off", x, y -> y.set(setting, far), -2);
-                error("no such setting", x, y -> y.set(far, 2), -2);
-            }
-            due("set to what it is", x.set(setting, lowest[i]), lowest[i]);
-            due("count(13)", x.count(13), 3);
-            for (int other = 0; other < 4; other++) {
-                due("other settings", x.count(7 + other), other == i ? lowest[i] : first[other]);
-            }
-        }
-        error("set(-1, 2)", busy(), y -> y.set(-1, 2), -2);
-        error("set(4, 2)", busy(), y -> y.set(4, 2), -2);
+    // ---- 2: set
 
+    private static void gameGoesOnBySetting() {
+        HostileHouses x = single(13);
+        due("count(11)", x.count(11), 0);
+        x.set(HostileHouses.VISITS, 2);
+        due("VISITS at once: count(11)", x.count(11), 1);
+        x.set(HostileHouses.VISITS, 1);
+        due("VISITS at once: count(11)", x.count(11), 12);
+        x.set(HostileHouses.VISITS, 3);
+        due("VISITS at once: count(11)", x.count(11), 0);
+        due("the game goes on: count(6)", x.count(6), 13);
+        x = new HostileHouses();
+        x.set(HostileHouses.LAPS, 0);
+        due("LAPS at once: ifMove(2, 0)", x.ifMove(2, 0), 1);
+        due("LAPS at once: move(2)", x.move(2), 1);
+        x = withHostileHouses(6, 1, 0);
+        x.set(HostileHouses.TOLL, 3);
+        due("TOLL at once: ifMove(4, 3)", x.ifMove(4, 3), 3);
+        x.set(HostileHouses.TOLL, 0);
+        due("TOLL at once: ifMove(4, 3)", x.ifMove(4, 3), 0);
+        x = over();
+        x.set(HostileHouses.LAPS, 1);
+        due("a game that is over stays so: count(1)", x.count(1), 1);
+    }
+
+    private static void seedsMatterForTheNextGame() {
         HostileHouses x = new HostileHouses();
         x.set(HostileHouses.SEEDS, 7);
-        due("SEEDS leaves this game: count(5)", x.count(5), 48);
-        x.move(0);
-        int visited = x.last(2);
-        x.set(HostileHouses.VISITS, 1);
-        due("VISITS matters at once: house(h, 2)", x.house(visited, 2), 1);
-        x.set(HostileHouses.VISITS, 9);
-        due("VISITS matters at once: count(11)", x.count(11), 0);
-        x = new HostileHouses();
-        x.set(HostileHouses.LAPS, 0);
-        due("LAPS matters at once: move(2)", x.move(2), 1);
+        due("this game: count(5)", x.count(5), 48);
+        due("this game: house(0, 0)", x.house(0, 0), 4);
+        due("this game: worth(0)", x.worth(0), 10000);
+        x.begin();
+        due("the next one: count(5)", x.count(5), 84);
+        x.begin();
+        due("the one behind it: count(5)", x.count(5), 84);
+        write(x, "1,0,0,0,0,0,0,0,0,0,0,3/0,0/0");
+        due("a game of the pad: read()", x.read(), 4);
+        due("count(7)", x.count(7), 7);
     }
 
-    private static void begin() {
+    private static void setIsAChange() {
+        for (int setting = 0; setting < 4; setting++) {
+            int one = setting;
+            change("set(" + one + ", 3)", HostileHouses::new, x -> x.set(one, 3));
+            change("set(" + one + ", 2), a full history", Checks::busy, x -> x.set(one, 2));
+        }
+        change("set to what it is", HostileHouses::new, x -> x.set(HostileHouses.VISITS, 3));
+        change("set in a game that is over", Checks::over, x -> x.set(HostileHouses.LAPS, 20));
+        noChange("set(0, 10)", HostileHouses::new, x -> x.set(0, 10));
+        noChange("set(4, 1)", HostileHouses::new, x -> x.set(4, 1));
+    }
+
+    private static void previousValue() {
+        int[] first = {4, 3, 6, 1};
+        HostileHouses x = new HostileHouses();
+        for (int setting = 0; setting < 4; setting++) {
+            due("the first value", x.set(setting, 2), first[setting]);
+            due("the one set before", x.set(setting, 3), 2);
+            due("what it is", x.set(setting, 3), 3);
+        }
+        x = new HostileHouses();
+        x.set(HostileHouses.LAPS, 0);
+        due("a value of 0", x.set(HostileHouses.LAPS, 20), 0);
+        x.undo();
+        due("behind undo()", x.set(HostileHouses.LAPS, 1), 0);
+    }
+
+    private static void noSuchSettingOrValue() {
+        for (int setting : new int[] {LEAST, -1, 4, MOST}) {
+            for (int value : new int[] {LEAST, -1, 0, 1, 3, 10, MOST}) {
+                leaves("set(" + setting + ", " + value + ")", Checks::busy, x -> x.set(setting, value), -2);
+            }
+        }
+        int[][] outOfRange = {{0, 0, 10}, {1, 0, 10}, {2, -1, 21}, {3, -1, 4}};
+        for (int[] one : outOfRange) {
+            for (int value : new int[] {one[1], one[2], LEAST, MOST}) {
+                leaves("set(" + one[0] + ", " + value + ")", Checks::busy, x -> x.set(one[0], value), -2);
+            }
+        }
+    }
+
+    // ---- 3: begin
+
+    private static void beginBegins() {
         HostileHouses x = busy();
-        due("begin()", x.begin(), 7);
-        due("count(6)", x.count(6), 0);
-        due("count(0)", x.count(0), 0);
-        due("count(8)", x.count(8), 1);
-        due("count(11)", x.count(11), 0);
-        due("count(12)", x.count(12), 5);
-        due("last(1)", x.last(1), -6);
-        due("moved(0)", x.moved(0), -1);
+        x.begin();
+        counts(x, 0, 0, -6, 0, 0, 48, 0, 4, 1, 6, 1, 0, 5, 6);
         seeds(x, 4, 4, 4, 4, 4, 4, 4, 4, 4, 4, 4, 4);
-        stores(x, 0, 0);
-        due("begin() again", x.begin(), 0);
-        for (int each = 1; each <= 9; each++) {
+        last(x, -6, -6, -6, -6, -6);
+        due("moved(0)", x.moved(0), -1);
+        x = over();
+        x.begin();
+        counts(x, 0, 0, -6, 0, 0, 48, 0);
+        for (int each : new int[] {1, 9}) {
             x.set(HostileHouses.SEEDS, each);
             x.begin();
-            due("count(5)", x.count(5), 12 * each);
-            due("house(11, 0)", x.house(11, 0), each);
+            due("SEEDS " + each + ": count(5)", x.count(5), 12 * each);
+            due("SEEDS " + each + ": house(11, 0)", x.house(11, 0), each);
         }
-        x = over();
-        due("begin() behind the end", x.begin(), 0);
-        due("count(1)", x.count(1), 0);
-        stores(x, 0, 0);
-        x = new HostileHouses();
-        x.move(0);
-        due("count(0)", x.count(0), 1);
-        x.begin();
-        due("count(0)", x.count(0), 0);
+    }
+
+    private static void beginIsAChange() {
+        change("begin()", Checks::busy, HostileHouses::begin);
+        change("begin() of a new object", HostileHouses::new, HostileHouses::begin);
+        change("begin() in a game that is over", Checks::over, HostileHouses::begin);
+    }
+
+    private static void movesOfTheOneBefore() {
+        due("no move", new HostileHouses().begin(), 0);
+        due("one move", single(1).begin(), 1);
+        due("the most moves", single(300).begin(), 300);
+        due("over at once", over().begin(), 0);
+        HostileHouses x = busy();
+        due("moves", x.begin(), 7);
+        due("of the one before alone", x.begin(), 0);
         x.undo();
-        due("count(6)", x.count(6), 1);
+        x.undo();
+        due("behind undo()", x.begin(), 7);
     }
 
-    private static void move() {
-        moveOneLap();
-        moveMoreLaps();
-        moveCapturesVisits();
-        moveTolls();
-        moveTurnsAndEnds();
-        for (int house : new int[] {-1, 12, Integer.MIN_VALUE, Integer.MAX_VALUE}) {
-            error("move(no such)", busy(), y -> y.move(house), -1);
-            error("move(no such), over", over(), y -> y.move(house), -1);
-        }
-        error("move(of the other), first", new HostileHouses(), y -> y.move(6), -5);
-        error("move(of the other), last", new HostileHouses(), y -> y.move(11), -5);
-        error("move(empty)", at("0,1,0,0,0,0,0,0,0,0,1,1/0,0/0"), y -> y.move(0), -5);
-        error("move(empty)", at("0,1,0,0,0,0,0,0,0,0,1,1/0,0/1"), y -> y.move(6), -5);
-        for (int i = 0; i < 12; i++) {
-            int house = i;
-            error("move, over", over(), y -> y.move(house), -5);
-        }
-    }
+    // ---- 4: move
 
-    private static void moveOneLap() {
-        HostileHouses x = at("9,0,1,0,0,0,0,0,4,0,0,9/0,0/0");
-        due("a capture: move(2)", x.move(2), 1);
-        seeds(x, 9, 0, 0, 0, 0, 0, 0, 0, 0, 0, 0, 9);
-        stores(x, 5, 0);
-        last(x, 2, 1, 3, 5, 0);
-        due("house(3, 1)", x.house(3, 1), 1);
-        due("count(0)", x.count(0), 1);
-
-        x = at("9,0,0,0,0,4,0,0,9,0,1,0/0,0/1");
-        due("player 1 captures: move(10)", x.move(10), 1);
-        seeds(x, 0, 0, 0, 0, 0, 4, 0, 0, 9, 0, 0, 0);
-        stores(x, 0, 10);
-
-        x = at("9,0,0,0,2,3,0,0,9,0,0,0/0,0/0");
-        due("no capture on the other side: move(4)", x.move(4), 1);
-        seeds(x, 9, 0, 0, 0, 0, 4, 1, 0, 9, 0, 0, 0);
-        last(x, 4, 1, 6, 0, 0);
-
-        x = at("9,0,1,0,0,0,0,0,0,0,0,9/0,0/0");
-        due("nothing across: move(2)", x.move(2), 1);
-        seeds(x, 9, 0, 0, 1, 0, 0, 0, 0, 0, 0, 0, 9);
-        stores(x, 0, 0);
-
-        x = at("12,0,0,0,0,0,0,0,0,0,0,0/0,0/0");
-        x.set(HostileHouses.LAPS, 0);
-        due("the house of the lap gets no seed: move(0)", x.move(0), 1);
-        seeds(x, 0, 2, 1, 1, 1, 1, 1, 1, 1, 1, 1, 1);
-        last(x, 0, 1, 1, 0, 0);
-
-        x = at("0,0,3,0,0,0,0,0,0,0,25,0/0,0/1");
-        x.set(HostileHouses.LAPS, 0);
-        due("twice around: move(10)", x.move(10), 1);
-        seeds(x, 3, 3, 5, 2, 2, 2, 2, 2, 2, 2, 0, 3);
-        last(x, 10, 1, 1, 0, 0);
-    }
-
-    private static void moveMoreLaps() {
-        // 0 ends in 1, which goes on to 3, which goes on to 7, which was empty
-        String chain = "1,1,0,3,0,0,0,0,0,0,0,9/0,0/0";
-        HostileHouses x = at(chain);
+    private static void moveIsMade() {
+        HostileHouses x = at("1,1,0,3,0,0,0,0,0,0,0,9/0,0/0");
         due("move(0)", x.move(0), 3);
         seeds(x, 0, 0, 1, 0, 1, 1, 1, 1, 0, 0, 0, 9);
         last(x, 0, 3, 7, 0, 0);
-        due("house(1, 1)", x.house(1, 1), 1);
-        due("house(3, 1)", x.house(3, 1), 1);
-        due("house(7, 1)", x.house(7, 1), 1);
-        due("house(0, 1)", x.house(0, 1), 0);
-        int[][] laps = {{0, 1, 1}, {1, 2, 3}, {2, 3, 7}, {3, 3, 7}, {20, 3, 7}};
-        for (int[] limit : laps) {
-            x = at(chain);
-            x.set(HostileHouses.LAPS, limit[0]);
-            due("LAPS " + limit[0] + ": move(0)", x.move(0), limit[1]);
-            due("last(2)", x.last(2), limit[2]);
-        }
-        // a house that is hostile ahead of its visit ends the move; the visit that makes it hostile doesn't
-        x = at(chain);
+        visits(x, 0, 1, 0, 1, 0, 0, 0, 1, 0, 0, 0, 0);
+        due("count(0)", x.count(0), 1);
+        due("count(6)", x.count(6), 1);
+        due("moved(0)", x.moved(0), 0);
         x.set(HostileHouses.VISITS, 1);
-        due("VISITS 1: move(0)", x.move(0), 3);
+        x.undo();
+        x.undo();
+        x.set(HostileHouses.VISITS, 1);
+        due("a visit that makes a house hostile lets the move go on: move(0)", x.move(0), 3);
         due("count(11)", x.count(11), 3);
-        x = at("1,2,0,0,0,9,0,0,0,0,0,9/0,0/0");
-        x.set(HostileHouses.VISITS, 1);
-        x.set(HostileHouses.LAPS, 0);
-        x.move(0);
-        x.move(11);
-        x.set(HostileHouses.LAPS, 6);
-        due("house(0, 0)", x.house(0, 0), 1);
-        due("house(1, 2)", x.house(1, 2), 1);
-        due("a hostile house ends the move: move(0)", x.move(0), 1);
-        due("house(1, 1)", x.house(1, 1), 2);
     }
 
-    private static void moveCapturesVisits() {
-        HostileHouses x = at("9,0,0,0,1,1,2,9,0,1,0,0/0,0/0");
-        x.set(HostileHouses.LAPS, 0);
-        x.move(5);
-        x.move(9);
-        due("house(6, 1)", x.house(6, 1), 1);
-        due("move(4)", x.move(4), 1);
-        due("last(3)", x.last(3), 4);
-        due("house(6, 1) behind the capture", x.house(6, 1), 0);
-        due("house(5, 1) behind the capture", x.house(5, 1), 1);
-        due("house(10, 1) behind the capture", x.house(10, 1), 1);
-        // a hostile house captures, too
-        x = at("9,0,0,0,1,0,0,9,0,1,1,0/20,20/0");
-        x.set(HostileHouses.LAPS, 0);
-        x.set(HostileHouses.VISITS, 1);
-        x.move(4);
-        x.move(9);
-        x.move(5);
-        x.move(7);
-        due("house(4, 0)", x.house(4, 0), 1);
-        x.move(4);
-        due("house(5, 1)", x.house(5, 1), 2);
-        due("captured by the hostile house 5", x.last(3), 2);
+    private static void moveIsAChange() {
+        change("move(2)", HostileHouses::new, x -> x.move(2));
+        change("move(best)", Checks::busy, x -> x.move(x.best(1)));
+        change("a move that ends the game", () -> at("0,0,1,0,0,0,0,0,1,0,0,0/4,6/0"), x -> x.move(2));
+        noChange("move(6)", HostileHouses::new, x -> x.move(6));
     }
 
-    /** Player 0's next move is from house 4, past house 6, which is hostile. */
-    private static HostileHouses withHostileHouse(int seedsOfHouse4, int toll) {
-        HostileHouses x = at("9,0,0,0," + seedsOfHouse4 + ",1,0,0,0,0,1,9/0,0/0");
-        x.set(HostileHouses.VISITS, 1);
+    private static void lapsOfAMove() {
+        HostileHouses x = at("1,1,0,3,0,0,0,0,0,0,0,9/0,0/0");
         x.set(HostileHouses.LAPS, 0);
-        x.set(HostileHouses.TOLL, toll);
-        x.move(5);
-        x.move(10);
-        return x;
+        due("LAPS 0: move(0)", x.move(0), 1);
+        x.undo();
+        x.set(HostileHouses.LAPS, 1);
+        due("LAPS 1: move(0)", x.move(0), 2);
+        x.undo();
+        x.set(HostileHouses.LAPS, 20);
+        due("LAPS 20: move(0)", x.move(0), 3);
     }
 
-    private static void moveTolls() {
-        HostileHouses x = withHostileHouse(3, 1);
-        due("count(11)", x.count(11), 2);
-        due("move(4)", x.move(4), 1);
-        seeds(x, 9, 0, 0, 0, 0, 1, 2, 0, 0, 0, 0, 10);
-        stores(x, 0, 1);
-        last(x, 4, 1, 6, 0, 1);
-        // seeds of house 4, TOLL, tolls that are paid: the hand has one less when it comes to house 6
-        int[][] cases = {{2, 1, 0}, {3, 1, 1}, {3, 0, 0}, {8, 0, 0}, {3, 2, 0}, {4, 2, 2}, {4, 3, 0}, {5, 3, 3},
-            {8, 1, 1}, {9, 1, 2}, {10, 1, 2}};
-        for (int[] one : cases) {
-            x = withHostileHouse(one[0], one[1]);
-            x.move(4);
-            due("tolls of " + one[0] + " seeds by " + one[1], x.last(4), one[2]);
-            stores(x, 0, one[2]);
-            due("count(5)", x.count(5), 20 + one[0]);
+    private static void moveOfNoHouse() {
+        for (int house : new int[] {LEAST, -1, 12, MOST}) {
+            leaves("move(" + house + ")", Checks::busy, x -> x.move(house), -1);
+            leaves("move(" + house + "), over", Checks::over, x -> x.move(house), -1);
         }
-        // own hostile houses take nothing
-        x = withHostileHouse(3, 1);
-        x.move(4);
-        x.set(HostileHouses.TOLL, 3);
-        x.move(6);
-        due("own hostile houses: last(4)", x.last(4), 0);
-        // player 1 pays into the store of player 0
-        x = at("0,1,0,0,0,9,9,0,0,0,0,5/0,0/0");
-        x.set(HostileHouses.VISITS, 1);
-        x.set(HostileHouses.LAPS, 0);
-        x.set(HostileHouses.TOLL, 2);
-        x.move(1);
-        due("move(11)", x.move(11), 1);
-        seeds(x, 1, 1, 2, 0, 0, 9, 9, 0, 0, 0, 0, 0);
-        stores(x, 2, 0);
-        last(x, 11, 1, 2, 0, 2);
     }
 
-    private static void moveTurnsAndEnds() {
-        HostileHouses x = at("1,0,0,0,0,0,0,0,0,0,0,0/5,5/0");
-        x.move(0);
-        due("the other one has no seeds: count(0)", x.count(0), 0);
-        due("count(1)", x.count(1), 0);
-        for (int house = 1; house < 6; house++) {
-            x.move(house);
+    private static void moveIsNotPossible() {
+        for (int i = 0; i < 12; i++) {
+            int house = i;
+            leaves("over: move(" + house + ")", Checks::over, x -> x.move(house), -5);
         }
-        due("the seed is at 6: count(0)", x.count(0), 1);
-        due("move(6)", x.move(6), 1);
-        due("count(0)", x.count(0), 1);
-
-        // more than half of all: the houses go into the stores of their owners
-        x = at("0,0,1,0,0,1,0,0,4,0,0,2/5,5/0");
-        x.move(2);
-        due("5 and 5 of 18: count(1)", x.count(1), 1);
-        stores(x, 11, 7);
-        due("count(2)", x.count(2), 0);
-        due("count(0)", x.count(0), 1);
-        seeds(x, 0, 0, 0, 0, 0, 0, 0, 0, 0, 0, 0, 0);
-        // just half of all is not enough
-        x = at("0,0,1,0,0,1,0,0,4,0,0,2/4,6/0");
-        x.move(2);
-        due("9 of 18: count(1)", x.count(1), 0);
-        due("count(2)", x.count(2), -6);
-        // the other player's store ends it, too, by tolls
-        x = at("1,0,0,0,3,0,0,0,0,0,1,1/0,6/0");
-        x.set(HostileHouses.VISITS, 1);
-        x.set(HostileHouses.LAPS, 0);
-        due("count(5)", x.count(5), 12);
-        x.move(0);
-        x.move(10);
-        due("count(1)", x.count(1), 0);
-        // all houses are empty: a capture of the last seeds
-        x = at("0,0,1,0,0,0,0,0,1,0,0,0/4,6/0");
-        x.move(2);
-        due("all houses are empty: count(1)", x.count(1), 1);
-        due("count(2)", x.count(2), 2);
-        stores(x, 6, 6);
-        due("count(0)", x.count(0), 1);
-        moveThreeHundredTimes();
-    }
-
-    /** One seed that goes around, with stores that stay at half of all or below. */
-    private static void moveThreeHundredTimes() {
-        HostileHouses x = at("1,0,0,0,0,0,0,0,0,0,0,0/99,99/0");
-        due("movesLeft(1)", x.movesLeft(1), 300);
-        for (int move = 0; move < 299; move++) {
-            x.move(move % 12);
+        for (int i = 0; i < 6; i++) {
+            int house = i;
+            leaves("not own: move(" + (house + 6) + ")", HostileHouses::new, x -> x.move(house + 6), -5);
+            leaves("not own: move(" + house + ")", () -> at("1,1,1,1,1,1,1,1,1,1,1,1/0,0/1"), x -> x.move(house), -5);
         }
-        due("count(6)", x.count(6), 299);
-        due("count(1)", x.count(1), 0);
-        due("count(0)", x.count(0), 1);
-        due("ifMove(11, 6)", x.ifMove(11, 6), 1);
-        due("ifMove(11, 5)", x.ifMove(11, 5), 0);
-        due("ifMove(11, 4)", x.ifMove(11, 4), 10000);
-        due("movesLeft(2)", x.movesLeft(2), 1);
-        due("worth(4)", x.worth(4), 9999);
-        due("move(11)", x.move(11), 1);
-        due("count(6)", x.count(6), 300);
-        due("count(1)", x.count(1), 1);
-        due("count(2)", x.count(2), 0);
-        stores(x, 100, 99);
-        due("house(0, 0)", x.house(0, 0), 0);
-        due("house(0, 1)", x.house(0, 1), 25);
-        due("moved(299)", x.moved(299), 11);
-        due("moved(300)", x.moved(300), -1);
-        due("move(0)", x.move(0), -5);
-        due("begin()", x.begin(), 300);
-        due("undo()", x.undo(), 5);
-        due("moved(298)", x.moved(298), 10);
+        leaves("no seeds: move(0)", () -> at("0,1,0,0,0,0,0,0,0,0,1,1/0,0/0"), x -> x.move(0), -5);
+        leaves("no seeds: move(5)", () -> at("0,1,0,0,0,0,0,0,0,0,1,1/0,0/0"), x -> x.move(5), -5);
+        leaves("no seeds: move(6)", () -> at("0,1,0,0,0,0,0,0,0,0,1,1/0,0/1"), x -> x.move(6), -5);
+        HostileHouses x = at(SINGLE_SEED);
+        x.move(0);
+        due("emptied by the last move: move(0)", x.move(0), -5);
+        due("one seed: move(1)", x.move(1), 1);
     }
 
-    /** From 0 player 0 captures 5, and then player 1 captures the 8 seeds of 2 from 8; from 2 nobody captures. */
-    private static HostileHouses captureOrTakeCare() {
-        HostileHouses x = at("1,0,8,0,0,0,0,0,1,0,4,0/20,20/0");
-        x.set(HostileHouses.LAPS, 0);
-        return x;
-    }
+    // ---- 5: play
 
-    private static void play() {
+    private static void bestMove() {
         HostileHouses x = at("9,0,1,0,1,0,0,2,4,0,0,9/0,0/0");
         due("the greatest capture: play(1)", x.play(1), 2);
-        due("last(3)", x.last(3), 5);
+        last(x, 2, 1, 3, 5, 0);
         due("count(6)", x.count(6), 1);
-        due("count(13)", x.count(13), 2);
+        due("moved(0)", x.moved(0), 2);
         x = at("9,0,1,0,1,0,5,2,4,0,0,9/0,0/0");
         due("the greatest capture: play(1)", x.play(1), 4);
-        for (int depth = 1; depth <= 4; depth++) {
-            x = at("1,0,0,1,0,0,0,0,0,0,0,0/5,5/0");
-            due("of several the lowest: play(" + depth + ")", x.play(depth), 0);
-            x = at("0,0,0,0,0,0,0,0,1,0,0,0/5,5/1");
-            due("the only one: play(" + depth + ")", x.play(depth), 8);
-        }
         x = captureOrTakeCare();
         due("play(1)", x.play(1), 0);
         due("last(3)", x.last(3), 5);
         x.undo();
         due("play(2)", x.play(2), 2);
         due("last(3)", x.last(3), 0);
-        int[] wrongDepths = {0, 5, -1, Integer.MIN_VALUE, Integer.MAX_VALUE};
-        for (int depth : wrongDepths) {
-            error("play(" + depth + ")", busy(), y -> y.play(depth), -2);
-            error("play(" + depth + "), over", over(), y -> y.play(depth), -2);
+    }
+
+    private static void lowestOfSeveral() {
+        for (int depth = 1; depth <= 4; depth++) {
+            HostileHouses x = at("1,0,0,1,0,0,0,0,0,0,0,0/5,5/0");
+            due("two of the same worth: play(" + depth + ")", x.play(depth), 0);
+            x = at("0,0,0,0,0,1,0,0,0,0,0,0/5,5/0");
+            due("just the last one: play(" + depth + ")", x.play(depth), 5);
+            x = at("0,0,0,0,0,0,0,0,0,0,0,1/5,5/1");
+            due("just the last one: play(" + depth + ")", x.play(depth), 11);
         }
+        // 1 and 3 capture the same, 0 and 4 nothing
+        HostileHouses x = oneLapAt("1,1,0,1,0,1,0,3,9,3,0,9/0,0/0");
+        due("ifMove(1, 4)", x.ifMove(1, 4), 10004);
+        due("ifMove(3, 4)", x.ifMove(3, 4), 10004);
+        due("play(1)", x.play(1), 1);
+        // all have the same worth below 10000
+        x = oneLapAt("1,1,1,1,1,1,9,0,0,0,0,0/0,9/0");
+        due("play(1)", x.play(1), 0);
+    }
+
+    private static void playIsAChange() {
         for (int i = 1; i <= 4; i++) {
             int depth = i;
-            error("play(" + depth + "), over", over(), y -> y.play(depth), -5);
+            change("play(" + depth + ")", HostileHouses::new, x -> x.play(depth));
+            change("play(" + depth + "), a full history", Checks::busy, x -> x.play(depth));
+            noChange("play(" + depth + "), over", Checks::over, x -> x.play(depth));
         }
     }
 
-    private static void read() {
+    private static void depthsOfPlay() {
+        int[] inThree = {9, 9, 11, 11};
+        int[] inFour = {9, 9, 9, 10};
+        for (int depth = 1; depth <= 4; depth++) {
+            due("a capture in three moves: play(" + depth + ")", captureInThree().play(depth), inThree[depth - 1]);
+            due("a capture in four moves: play(" + depth + ")", captureInFour().play(depth), inFour[depth - 1]);
+        }
+        due("a capture in one move: play(1)", captureOrTakeCare().play(1), 0);
+        due("a capture in two moves: play(2)", captureOrTakeCare().play(2), 2);
+    }
+
+    private static void playIsNotPossible() {
+        for (int depth : new int[] {LEAST, -1, 0, 5, MOST}) {
+            leaves("play(" + depth + ")", Checks::busy, x -> x.play(depth), -2);
+            leaves("play(" + depth + "), over", Checks::over, x -> x.play(depth), -2);
+        }
+        for (int i = 1; i <= 4; i++) {
+            int depth = i;
+            leaves("over: play(" + depth + ")", Checks::over, x -> x.play(depth), -5);
+        }
+        HostileHouses x = single(299);
+        due("the 300th move: play(4)", x.play(4), 11);
+        due("behind it: play(1)", x.play(1), -5);
+    }
+
+    // ---- 6: read
+
+    private static void readBegins() {
         HostileHouses x = busy();
         x.wipe();
         write(x, "0,1,2,3,4,5,6,7,8,9,10,99/11,12/1");
         due("read()", x.read(), 177);
         seeds(x, 0, 1, 2, 3, 4, 5, 6, 7, 8, 9, 10, 99);
-        stores(x, 11, 12);
-        int[] want = {1, 0, -6, 11, 12, 177, 0, 4, 1, 6, 1, 0, 0, 6};
-        for (int what = 0; what < want.length; what++) {
-            due("count(" + what + ")", x.count(what), want[what]);
-        }
-        due("house(0, 1)", x.house(0, 1), 0);
-        due("last(0)", x.last(0), -6);
+        visits(x, 0, 0, 0, 0, 0, 0, 0, 0, 0, 0, 0, 0);
+        counts(x, 1, 0, -6, 11, 12, 177, 0, 4, 1, 6, 1, 0);
+        last(x, -6, -6, -6, -6, -6);
         due("moved(0)", x.moved(0), -1);
-        due("undo()", x.undo(), 5);
-        due("the pad stays empty: count(12)", x.count(12), 0);
-        due("count(6)", x.count(6), 7);
-
-        x = at("0,0,0,0,0,0,0,0,0,0,0,0/3,2/1");
-        due("all houses are empty: count(1)", x.count(1), 1);
-        due("count(2)", x.count(2), 0);
-        due("count(0)", x.count(0), 1);
-        due("worth(0)", x.worth(0), 9999);
-        due("worth(4)", x.worth(4), 9999);
-        x = at("0,0,0,0,0,0,0,0,0,0,0,0/0,0/0");
-        due("nothing at all: count(2)", x.count(2), 2);
-        due("count(0)", x.count(0), 0);
-        due("count(5)", x.count(5), 0);
-        x = at("2,0,0,0,0,0,0,0,0,0,0,3/0,6/0");
-        due("more than half: count(1)", x.count(1), 1);
-        due("count(2)", x.count(2), 1);
-        stores(x, 2, 9);
-        due("count(0)", x.count(0), 0);
-        due("count(6)", x.count(6), 0);
-        due("house(11, 0)", x.house(11, 0), 0);
-        x = at("0,0,0,0,0,0,0,0,0,0,0,3/6,0/0");
-        due("over, and the player without seeds: count(0)", x.count(0), 0);
-        stores(x, 6, 3);
-        x = at("2,0,0,0,0,0,0,0,0,0,0,3/0,5/0");
-        due("half: count(1)", x.count(1), 0);
-        x = at("2,0,0,0,0,0,0,0,0,0,0,3/5,0/1");
-        due("half: count(1)", x.count(1), 0);
-        due("count(0)", x.count(0), 1);
-        x = at("0,0,0,0,0,0,0,0,0,0,0,3/0,0/0");
-        due("player 0 has no seeds: count(0)", x.count(0), 1);
-        x = at("0,0,0,0,0,3,0,0,0,0,0,0/0,0/1");
-        due("player 1 has no seeds: count(0)", x.count(0), 0);
-        x = at("99,99,99,99,99,99,99,99,99,99,99,99/99,99/0");
-        due("the most seeds: count(5)", x.count(5), 14 * 99);
-        due("count(1)", x.count(1), 0);
         x = over();
         write(x, "1,0,0,0,0,0,0,0,0,0,0,3/0,0/0");
-        due("behind the end: read()", x.read(), 4);
-        due("count(1)", x.count(1), 0);
+        x.read();
+        due("behind a game that is over: count(1)", x.count(1), 0);
+        due("move(0)", x.move(0), 1);
+    }
 
-        error("read(), a fault", busy(), HostileHouses::read, -3);
-        error("read(), empty", over(), HostileHouses::read, -3);
-        String[] texts = {"0", "0,0,0,0,0,0,0,0,0,0,0,0/0,0/", "0,0,0,0,0,0,0,0,0,0,0,0/0,0/2",
-            "0,0,0,0,0,0,0,0,0,0,0,0/0,0/00", "1,0,0,0,0,0,0,0,0,0,0,0/0,0/0,"};
+    private static void readEmptiesThePad() {
+        HostileHouses x = pad(ZEROS);
+        due("count(12)", x.count(12), 29);
+        x.read();
+        due("behind read(): count(12)", x.count(12), 0);
+        due("behind read(): fault()", x.fault(), 0);
+        due("behind read(): read()", x.read(), -3);
+        x.undo();
+        due("behind undo(): count(12)", x.count(12), 0);
+        x = pad(ZEROS + "0");
+        due("refused: read()", x.read(), -3);
+        due("refused: count(12)", x.count(12), 30);
+    }
+
+    private static void readOfAGameThatIsOver() {
+        HostileHouses x = at("0,0,0,0,0,0,0,0,0,0,0,0/3,2/1");
+        counts(x, 1, 1, 0, 3, 2, 5, 0);
+        x = at("0,0,0,0,0,0,0,0,0,0,0,0/3,3/0");
+        counts(x, 0, 1, 2, 3, 3, 6, 0);
+        x = at(ZEROS);
+        counts(x, 0, 1, 2, 0, 0, 0, 0);
+        x = at("0,0,0,0,0,0,0,0,0,0,0,0/0,0/1");
+        counts(x, 1, 1, 2, 0, 0, 0, 0);
+        // more than half, and half
+        x = at("2,0,0,0,0,0,0,0,0,0,0,3/0,6/0");
+        counts(x, 0, 1, 1, 2, 9, 11, 0);
+        seeds(x, 0, 0, 0, 0, 0, 0, 0, 0, 0, 0, 0, 0);
+        x = at("2,0,0,0,0,0,0,0,0,0,0,3/6,0/1");
+        counts(x, 1, 1, 0, 8, 3, 11, 0);
+        x = at("2,0,0,0,0,0,0,0,0,0,0,3/0,5/0");
+        counts(x, 0, 0, -6, 0, 5, 10, 0);
+        x = at("2,0,0,0,0,0,0,0,0,0,0,3/5,0/1");
+        counts(x, 1, 0, -6, 5, 0, 10, 0);
+        x = at("2,0,0,0,0,0,0,0,0,0,0,4/6,0/0");
+        due("6 of 12: count(1)", x.count(1), 0);
+        due("6 of 11: count(1)", at("2,0,0,0,0,0,0,0,0,0,0,3/6,0/0").count(1), 1);
+        // the player of the pad is to move, though without seeds
+        x = at("0,0,0,0,0,0,0,0,0,0,0,3/6,0/0");
+        counts(x, 0, 1, 0, 6, 3, 9, 0);
+        x = at("3,0,0,0,0,0,0,0,0,0,0,0/0,6/1");
+        counts(x, 1, 1, 1, 3, 6, 9, 0);
+        due("a game that is over: begin()", x.begin(), 0);
+    }
+
+    private static void readGivesTheTurn() {
+        due("player 0 has no seeds: count(0)", at("0,0,0,0,0,0,0,0,0,0,0,3/0,0/0").count(0), 1);
+        due("player 0 has one: count(0)", at("0,0,0,0,0,1,0,0,0,0,0,3/0,0/0").count(0), 0);
+        due("player 1 has no seeds: count(0)", at("0,0,0,0,0,3,0,0,0,0,0,0/0,0/1").count(0), 0);
+        due("player 1 has one: count(0)", at("0,0,0,0,0,3,1,0,0,0,0,0/0,0/1").count(0), 1);
+        due("the other one has none: count(0)", at("0,0,0,0,0,3,0,0,0,0,0,0/0,0/0").count(0), 0);
+        due("half of all in the store: count(0)", at("0,0,0,0,0,0,0,0,0,0,0,3/3,0/0").count(0), 1);
+    }
+
+    private static void readIsAChange() {
+        change("read()", () -> pad("1,1,1,1,1,1,1,1,1,1,1,1/2,3/1"), HostileHouses::read);
+        change("read() of a game that is over", () -> pad(ZEROS), HostileHouses::read);
+        noChange("read() of a fault", Checks::busy, HostileHouses::read);
+    }
+
+    private static void seedsOfAll() {
+        due("none: read()", pad(ZEROS).read(), 0);
+        due("the stores alone: read()", pad("0,0,0,0,0,0,0,0,0,0,0,0/3,2/1").read(), 5);
+        due("the houses alone: read()", pad("1,2,3,4,5,6,7,8,9,10,11,12/0,0/1").read(), 78);
+        due("the most: read()", pad("99,99,99,99,99,99,99,99,99,99,99,99/99,99/0").read(), 1386);
+        due("over at once: read()", pad("2,0,0,0,0,0,0,0,0,0,0,3/0,6/0").read(), 11);
+    }
+
+    private static void readOfAFault() {
+        String[] texts = {"", "0", "0,0,0,0,0,0,0,0,0,0,0,0/0,0/", "0,0,0,0,0,0,0,0,0,0,0,0/0,0/2", ZEROS + "0",
+            ZEROS + ",", "0,0,0,0,0,0,0,0,0,0,0,0/0,100/0", "00,0,0,0,0,0,0,0,0,0,0,0/0,0/0",
+            "0,0,0,0,0,0,0,0,0,0,0/0,0/0", "0,0,0,0,0,0,0,0,0,0,0,0,0/0,0/0", "0,0,0,0,0,0,0,0,0,0,0,0/0/0",
+            "0,0,0,0,0,0,0,0,0,0,0,-1/0,0/0", "~".repeat(60)};
         for (String text : texts) {
-            error("read() of " + text, write(new HostileHouses(), text), HostileHouses::read, -3);
+            leaves("read() of \"" + text + "\"", () -> pad(text), HostileHouses::read, -3);
         }
+        leaves("a fault in a game: read()", Checks::busy, HostileHouses::read, -3);
+        leaves("an empty pad, over: read()", Checks::over, HostileHouses::read, -3);
     }
 
-    private static void house() {
-        HostileHouses x = at("0,1,2,3,4,5,6,7,8,9,10,11/0,0/0");
-        for (int i = 0; i < 12; i++) {
-            int house = i;
-            tells("house(h, 0)", x, y -> y.house(house, 0), house);
-            tells("house(h, 1)", x, y -> y.house(house, 1), 0);
-            tells("house(h, 2)", x, y -> y.house(house, 2), 0);
-        }
-        x = at("1,0,0,0,0,0,0,0,0,0,0,0/99,99/0");
-        for (int move = 0; move < 24; move++) {
-            x.move(move % 12);
-        }
-        due("two visits: house(5, 1)", x.house(5, 1), 2);
-        due("two visits: house(5, 2)", x.house(5, 2), 0);
-        for (int move = 0; move < 5; move++) {
-            x.move(move);
-        }
-        due("three visits: house(5, 1)", x.house(5, 1), 3);
-        due("three visits: house(5, 2)", x.house(5, 2), 1);
-        due("house(6, 2)", x.house(6, 2), 0);
+    // ---- 7: house
+
+    private static void aboutAHouse() {
+        HostileHouses x = at("0,1,2,3,4,5,6,7,8,9,10,99/0,0/0");
+        seeds(x, 0, 1, 2, 3, 4, 5, 6, 7, 8, 9, 10, 99);
+        visits(x, 0, 0, 0, 0, 0, 0, 0, 0, 0, 0, 0, 0);
+        due("over: house(11, 0)", at("0,0,0,0,0,0,0,0,0,0,0,3/6,0/0").house(11, 0), 0);
+        x = single(300);
+        visits(x, 25, 25, 25, 25, 25, 25, 25, 25, 25, 25, 25, 25);
+    }
+
+    private static void whatOfAHouse() {
+        HostileHouses x = single(25);
+        due("house(0, 0)", x.house(0, 0), 0);
+        due("house(0, 1)", x.house(0, 1), 2);
         due("house(0, 2)", x.house(0, 2), 0);
+        due("house(1, 0)", x.house(1, 0), 1);
+        due("house(1, 1)", x.house(1, 1), 3);
         due("house(1, 2)", x.house(1, 2), 1);
-        for (int house : new int[] {-1, 12, Integer.MIN_VALUE, Integer.MAX_VALUE}) {
-            error("no such house", busy(), y -> y.house(house, 0), -1);
-            error("no such house ahead of what", busy(), y -> y.house(house, 3), -1);
+        x.set(HostileHouses.VISITS, 2);
+        due("house(11, 2)", x.house(11, 2), 1);
+        due("house(0, 2)", x.house(0, 2), 1);
+    }
+
+    private static void noSuchHouse() {
+        for (int house : new int[] {LEAST, -1, 12, MOST}) {
+            leaves("house(" + house + ", 0)", Checks::busy, x -> x.house(house, 0), -1);
+            leaves("house(" + house + ", 3)", Checks::busy, x -> x.house(house, 3), -1);
+            leaves("house(" + house + ", -1)", Checks::busy, x -> x.house(house, -1), -1);
         }
-        for (int what : new int[] {-1, 3, Integer.MIN_VALUE, Integer.MAX_VALUE}) {
-            error("house(0, what)", busy(), y -> y.house(0, what), -2);
-            error("house(11, what)", busy(), y -> y.house(11, what), -2);
+        for (int what : new int[] {LEAST, -1, 3, MOST}) {
+            leaves("house(0, " + what + ")", Checks::busy, x -> x.house(0, what), -2);
+            leaves("house(11, " + what + ")", Checks::busy, x -> x.house(11, what), -2);
         }
     }
 
-    private static void count() {
-        HostileHouses x = withHostileHouse(3, 1);
+    // ---- 8: count
+
+    private static void whatIsCounted() {
+        HostileHouses x = withHostileHouses(3, 1, 0);
         x.move(4);
         write(x, "12,3");
         // the read, three settings and three moves: one more than the history keeps
-        int[] want = {1, 0, -6, 0, 1, 23, 3, 4, 1, 0, 1, 2, 4, 6};
-        for (int i = 0; i < want.length; i++) {
-            int what = i;
-            tells("count(" + what + ")", x, y -> y.count(what), want[what]);
-        }
-        x = over();
-        due("over: count(1)", x.count(1), 1);
-        due("over: count(2)", x.count(2), 0);
-        x = at("0,0,0,0,0,0,0,0,0,0,0,0/2,3/0");
-        due("over: count(2)", x.count(2), 1);
-        x = at("0,0,0,0,0,0,0,0,0,0,0,0/3,3/0");
-        due("over: count(2)", x.count(2), 2);
+        counts(x, 1, 0, -6, 0, 1, 23, 3, 4, 1, 0, 1, 2, 4, 6);
+        whoWins();
+        x = single(12);
+        x.set(HostileHouses.VISITS, 1);
+        due("all houses are hostile: count(11)", x.count(11), 12);
+        x.set(HostileHouses.VISITS, 2);
+        due("no house is hostile: count(11)", x.count(11), 0);
+        due("a full pad: count(12)", fullPad().count(12), 60);
+        due("the most seeds: count(5)", at("99,99,99,99,99,99,99,99,99,99,99,99/99,99/1").count(5), 1386);
+        due("no seeds: count(5)", at(ZEROS).count(5), 0);
+        due("the most moves: count(6)", single(300).count(6), 300);
         x = new HostileHouses();
         for (int changes = 1; changes <= 8; changes++) {
             x.set(HostileHouses.TOLL, 1);
-            due("count(13)", x.count(13), Math.min(changes, 6));
-        }
-        for (int what : new int[] {-1, 14, Integer.MIN_VALUE, Integer.MAX_VALUE}) {
-            error("count(" + what + ")", busy(), y -> y.count(what), -2);
+            due(changes + " changes: count(13)", x.count(13), Math.min(changes, 6));
         }
     }
 
-    private static void last() {
-        HostileHouses x = at("1,1,0,3,0,0,0,0,0,0,0,9/0,0/0");
-        for (int what = 0; what < 5; what++) {
-            due("no move yet: last(" + what + ")", x.last(what), -6);
+    private static void whoWins() {
+        due("not over: count(2)", at("9,0,0,0,0,0,0,0,0,0,0,0/4,5/0").count(2), -6);
+        due("player 0: count(2)", over().count(2), 0);
+        due("player 1: count(2)", at("0,0,0,0,0,0,0,0,0,0,0,0/2,3/0").count(2), 1);
+        due("nobody: count(2)", at("0,0,0,0,0,0,0,0,0,0,0,0/3,3/0").count(2), 2);
+    }
+
+    private static void noSuchCount() {
+        for (int what : new int[] {LEAST, -1, 14, MOST}) {
+            leaves("count(" + what + ")", Checks::busy, x -> x.count(what), -2);
         }
+    }
+
+    // ---- 9: last
+
+    private static void latestMove() {
+        HostileHouses x = at("1,1,0,3,0,0,0,0,0,0,0,9/0,0/0");
         x.move(0);
         last(x, 0, 3, 7, 0, 0);
         x.move(7);
@@ -616,413 +466,821 @@ public final class PromisesTest {
         x.undo();
         last(x, 0, 3, 7, 0, 0);
         x.begin();
-        due("last(0)", x.last(0), -6);
         x.undo();
         last(x, 0, 3, 7, 0, 0);
-        x = at("9,0,1,0,0,0,0,0,4,0,0,9/0,0/0");
+        x.ifMove(11, 0);
+        x.best(2);
+        x.movesLeft(1);
+        last(x, 0, 3, 7, 0, 0);
+    }
+
+    private static void whatOfTheLatestMove() {
+        HostileHouses x = at("9,0,1,0,0,0,0,0,4,0,0,9/0,0/0");
         x.move(2);
         last(x, 2, 1, 3, 5, 0);
-        x = withHostileHouse(5, 3);
+        x = withHostileHouses(5, 3, 0);
         x.move(4);
         last(x, 4, 1, 6, 0, 3);
-        x.move(11);
-        x.undo();
-        last(x, 4, 1, 6, 0, 3);
-        x = captureOrTakeCare();
-        x.move(0);
-        x.set(HostileHouses.TOLL, 0);
-        x.begin();
-        x.undo();
-        x.undo();
-        last(x, 0, 1, 1, 5, 0);
         // the seeds that go into the stores at the end are not captured
         x = at("0,0,1,0,0,1,0,0,4,0,0,2/5,5/0");
         x.move(2);
         last(x, 2, 1, 3, 5, 0);
-        for (int what : new int[] {-1, 5, Integer.MIN_VALUE, Integer.MAX_VALUE}) {
-            error("last(" + what + ")", busy(), y -> y.last(what), -2);
-            error("last(" + what + "), no move yet", new HostileHouses(), y -> y.last(what), -2);
+        stores(x, 11, 7);
+        // a toll in the last one of three laps
+        x = at("0,0,0,0,2,0,10,0,0,0,0,0/0,0/0");
+        x.set(HostileHouses.VISITS, 1);
+        x.move(4);
+        last(x, 4, 3, 6, 0, 1);
+        x = single(300);
+        last(x, 11, 1, 0, 0, 0);
+    }
+
+    private static void noMoveYet() {
+        HostileHouses x = new HostileHouses();
+        last(x, -6, -6, -6, -6, -6);
+        x.move(2);
+        due("one move: last(0)", x.last(0), 2);
+        x.undo();
+        last(x, -6, -6, -6, -6, -6);
+        x.move(2);
+        x.begin();
+        last(x, -6, -6, -6, -6, -6);
+        x.move(2);
+        write(x, SINGLE_SEED);
+        x.read();
+        last(x, -6, -6, -6, -6, -6);
+        last(over(), -6, -6, -6, -6, -6);
+        for (int what : new int[] {LEAST, -1, 5, MOST}) {
+            leaves("last(" + what + ")", Checks::busy, y -> y.last(what), -2);
+            leaves("last(" + what + "), no move", HostileHouses::new, y -> y.last(what), -2);
         }
     }
 
-    private static void moved() {
-        HostileHouses x = at("1,0,0,0,0,0,0,0,0,0,0,0/99,99/0");
+    // ---- 10: moved
+
+    private static void movesOfThisGame() {
+        HostileHouses x = at(SINGLE_SEED);
         for (int move = 0; move < 20; move++) {
-            due("moved(next)", x.moved(move), -1);
+            due("the next move: moved(" + move + ")", x.moved(move), -1);
             x.move(move % 12);
-            int latest = move;
-            tells("moved(latest)", x, y -> y.moved(latest), move % 12);
-            due("moved(0)", x.moved(0), 0);
+            due("the latest move: moved(" + move + ")", x.moved(move), move % 12);
         }
+        due("the first move: moved(0)", x.moved(0), 0);
         due("moved(13)", x.moved(13), 1);
+        x = single(300);
+        due("the first of 300: moved(0)", x.moved(0), 0);
+        due("moved(150)", x.moved(150), 6);
+        due("the last of 300: moved(299)", x.moved(299), 11);
+        due("moved(300)", x.moved(300), -1);
+    }
+
+    private static void noSuchMove() {
+        due("no move: moved(0)", new HostileHouses().moved(0), -1);
+        for (int move : new int[] {LEAST, -1, 7, 299, 300, MOST}) {
+            leaves("7 moves: moved(" + move + ")", Checks::busy, x -> x.moved(move), -1);
+        }
+        HostileHouses x = single(20);
         x.undo();
-        due("moved(19)", x.moved(19), -1);
+        due("undone: moved(19)", x.moved(19), -1);
         due("moved(18)", x.moved(18), 6);
         x.begin();
-        due("moved(0)", x.moved(0), -1);
+        due("a game begun: moved(0)", x.moved(0), -1);
         x.move(5);
         due("moved(0)", x.moved(0), 5);
-        due("moved(1)", x.moved(1), -1);
+        due("of the game before: moved(1)", x.moved(1), -1);
         x.undo();
         x.undo();
-        due("moved(0) of the game before", x.moved(0), 0);
-        for (int move : new int[] {-1, 7, Integer.MIN_VALUE, Integer.MAX_VALUE}) {
-            error("moved(" + move + ")", busy(), y -> y.moved(move), -1);
-        }
+        due("that game again: moved(18)", x.moved(18), 6);
+        write(x, SINGLE_SEED);
+        x.read();
+        due("a game read: moved(0)", x.moved(0), -1);
     }
 
-    private static void ifMove() {
-        HostileHouses x = at("0,0,1,0,0,1,0,0,4,0,0,0/4,0/0");
-        int[] wins = {1, 3, 5, 0, 10006, 1, 1};
-        for (int i = 0; i < wins.length; i++) {
-            int what = i;
-            tells("ifMove(2, " + what + ")", x, y -> y.ifMove(2, what), wins[what]);
-        }
-        x = withHostileHouse(5, 3);
-        int[] pays = {1, 6, 0, 3, 10000, 1, 0};
-        for (int what = 0; what < pays.length; what++) {
-            due("ifMove(4, " + what + ")", x.ifMove(4, what), pays[what]);
-        }
-        x = at("1,1,0,3,0,0,0,0,0,0,0,9/0,0/0");
+    // ---- 11: ifMove
+
+    private static void whatAMoveWouldBring() {
+        HostileHouses x = at("1,1,0,3,0,0,0,0,0,0,0,9/0,0/0");
         due("ifMove(0, 0)", x.ifMove(0, 0), 3);
         due("ifMove(0, 1)", x.ifMove(0, 1), 7);
-        due("ifMove(0, 5)", x.ifMove(0, 5), 1);
-        due("the settings matter", x.set(HostileHouses.LAPS, 1), 6);
+        x.set(HostileHouses.LAPS, 1);
         due("ifMove(0, 0)", x.ifMove(0, 0), 2);
-        x = at("1,0,0,0,0,0,0,0,0,0,0,0/5,5/0");
-        due("the same player again: ifMove(0, 5)", x.ifMove(0, 5), 0);
-        // player 1's store is meant when player 1 moves
-        x = at("9,0,0,0,0,4,0,0,9,0,1,0/0,0/1");
-        due("ifMove(10, 4)", x.ifMove(10, 4), 10010);
-        due("ifMove(10, 2)", x.ifMove(10, 2), 10);
+        due("ifMove(0, 1)", x.ifMove(0, 1), 3);
+        due("nothing changes: count(6)", x.count(6), 0);
+    }
 
-        for (int house : new int[] {-1, 12, Integer.MIN_VALUE, Integer.MAX_VALUE}) {
-            error("no such house", busy(), y -> y.ifMove(house, 0), -1);
-            error("no such house ahead of what", busy(), y -> y.ifMove(house, 7), -1);
-            error("no such house, over", over(), y -> y.ifMove(house, 0), -1);
-        }
-        error("not own", new HostileHouses(), y -> y.ifMove(6, 0), -5);
-        error("not own ahead of what", new HostileHouses(), y -> y.ifMove(6, 7), -5);
-        error("empty", at("0,1,0,0,0,0,0,0,0,0,1,1/0,0/0"), y -> y.ifMove(0, 0), -5);
-        error("empty ahead of what", at("0,1,0,0,0,0,0,0,0,0,1,1/0,0/0"), y -> y.ifMove(0, -1), -5);
-        error("over", over(), y -> y.ifMove(0, 0), -5);
-        error("over ahead of what", over(), y -> y.ifMove(0, 9), -5);
-        for (int what : new int[] {-1, 7, Integer.MIN_VALUE, Integer.MAX_VALUE}) {
-            error("ifMove(0, " + what + ")", new HostileHouses(), y -> y.ifMove(0, what), -2);
+    private static void askedOfMove(HostileHouses x, int house, int... want) {
+        for (int what = 0; what < want.length; what++) {
+            due("ifMove(" + house + ", " + what + ")", x.ifMove(house, what), want[what]);
         }
     }
 
-    private static void worth() {
+    private static void whatOfAMove() {
+        // the end of the game: the seed of house 5 goes into the store, and isn't captured
+        askedOfMove(at("0,0,1,0,0,1,0,0,4,0,0,0/4,0/0"), 2, 1, 3, 5, 0, 10006, 1, 1);
+        // player 0 pays 3; the store of the player stays
+        askedOfMove(withHostileHouses(5, 3, 0), 4, 1, 6, 0, 3, 10000, 1, 0);
+        // the same player moves again
+        askedOfMove(at("1,0,0,0,0,0,0,0,0,0,0,0/5,5/0"), 0, 1, 1, 0, 0, 10000, 0, 0);
+        // the player 1
+        askedOfMove(at("9,0,0,0,0,4,0,0,9,0,1,0/0,0/1"), 10, 1, 11, 10, 0, 10010, 0, 0);
+        // the last house of three laps, and a toll in the last one
+        HostileHouses x = at("0,0,0,0,2,0,10,0,0,0,0,0/0,0/0");
+        x.set(HostileHouses.VISITS, 1);
+        askedOfMove(x, 4, 3, 6, 0, 1, 10000, 1, 0);
+        // the 300th move
+        askedOfMove(single(298), 10, 1, 11, 0, 0, 10000, 1, 0);
+        askedOfMove(single(299), 11, 1, 0, 0, 0, 10000, 0, 1);
+    }
+
+    private static void ifMoveIsRefused() {
+        for (int house : new int[] {LEAST, -1, 12, MOST}) {
+            leaves("ifMove(" + house + ", 0)", Checks::busy, x -> x.ifMove(house, 0), -1);
+            leaves("ifMove(" + house + ", 7)", Checks::busy, x -> x.ifMove(house, 7), -1);
+            leaves("ifMove(" + house + ", 0), over", Checks::over, x -> x.ifMove(house, 0), -1);
+        }
+        for (int what : new int[] {LEAST, -1, 0, 6, 7, MOST}) {
+            leaves("not own: ifMove(6, " + what + ")", HostileHouses::new, x -> x.ifMove(6, what), -5);
+            leaves("no seeds: ifMove(1, " + what + ")", () -> at(SINGLE_SEED), x -> x.ifMove(1, what), -5);
+            leaves("over: ifMove(0, " + what + ")", Checks::over, x -> x.ifMove(0, what), -5);
+        }
+        for (int what : new int[] {LEAST, -1, 7, MOST}) {
+            leaves("ifMove(0, " + what + ")", HostileHouses::new, x -> x.ifMove(0, what), -2);
+        }
+    }
+
+    // ---- 12: worth
+
+    private static void worthOfThePosition() {
         HostileHouses x = at("0,0,1,0,0,1,0,0,4,0,0,0/4,0/0");
         int[] wins = {10004, 10010, 10010, 10010, 10010};
-        for (int i = 0; i < wins.length; i++) {
-            int depth = i;
-            tells("worth(" + depth + ")", x, y -> y.worth(depth), wins[depth]);
-        }
-        x = at("1,0,0,0,0,0,0,0,0,0,0,0/9,8/0");
         for (int depth = 0; depth <= 4; depth++) {
-            due("the same player again: worth(" + depth + ")", x.worth(depth), 10001);
+            due("worth(" + depth + ")", x.worth(depth), wins[depth]);
         }
         x = at("0,0,0,0,0,0,0,0,0,0,1,0/9,8/1");
         due("for player 1: worth(0)", x.worth(0), 9999);
         due("for player 1, then player 0: worth(3)", x.worth(3), 9999);
         x = captureOrTakeCare();
-        due("worth(0)", x.worth(0), 10000);
         due("worth(1)", x.worth(1), 10005);
         due("worth(2)", x.worth(2), 10000);
         x.play(1);
         due("worth(0)", x.worth(0), 9995);
         due("worth(1)", x.worth(1), 10004);
-        // over: player 1's lead and player 0 to move, and the other way around
-        due("over: worth(3)", over().worth(3), 10000 + 2 - 10);
-        x = at("1,0,0,0,0,0,0,0,0,0,0,2/9,0/0");
+        x = at("0,0,0,0,0,0,0,0,0,0,0,0/0,99/0");
+        due("the least for two stores: worth(0)", x.worth(0), 9901);
+        x = at("0,0,0,0,0,0,99,99,99,99,99,99/99,0/0");
+        due("all but one house: worth(0)", x.worth(0), 9901);
+    }
+
+    private static void depthsOfWorth() {
+        HostileHouses x = at("1,0,0,0,0,0,0,0,0,0,0,2/9,0/0");
         for (int depth = 0; depth <= 4; depth++) {
-            due("over: worth(" + depth + ")", x.worth(depth), 10000 + 10 - 2);
+            due("over: worth(" + depth + ")", x.worth(depth), 10008);
         }
-        for (int depth : new int[] {-1, 5, Integer.MIN_VALUE, Integer.MAX_VALUE}) {
-            error("worth(" + depth + ")", busy(), y -> y.worth(depth), -2);
-            error("worth(" + depth + "), over", over(), y -> y.worth(depth), -2);
+        int[] inThree = {10000, 10000, 10000, 10002, 10002};
+        int[] inFour = {10000, 10000, 10000, 10000, 10002};
+        for (int depth = 0; depth <= 4; depth++) {
+            due("a capture in three moves: worth(" + depth + ")", captureInThree().worth(depth), inThree[depth]);
+            due("a capture in four moves: worth(" + depth + ")", captureInFour().worth(depth), inFour[depth]);
+        }
+        x = captureOrTakeCare();
+        due("depth 0: worth(0)", x.worth(0), 10000);
+        due("depth 1: worth(1)", x.worth(1), 10005);
+        due("depth 2: worth(2)", x.worth(2), 10000);
+    }
+
+    private static void noSuchDepthOfWorth() {
+        for (int depth : new int[] {LEAST, -1, 5, MOST}) {
+            leaves("worth(" + depth + ")", Checks::busy, x -> x.worth(depth), -2);
+            leaves("worth(" + depth + "), over", Checks::over, x -> x.worth(depth), -2);
         }
     }
 
-    private static void best() {
-        HostileHouses x = at("9,0,1,0,1,0,0,2,4,0,0,9/0,0/0");
-        tells("best(1)", x, y -> y.best(1), 2);
-        x = at("9,0,1,0,1,0,5,2,4,0,0,9/0,0/0");
-        tells("best(1)", x, y -> y.best(1), 4);
-        tells("best(1)", captureOrTakeCare(), y -> y.best(1), 0);
-        tells("best(2)", captureOrTakeCare(), y -> y.best(2), 2);
-        for (int i = 1; i <= 4; i++) {
-            int depth = i;
-            x = at("1,0,0,1,0,0,0,0,0,0,0,0/5,5/0");
-            tells("of several the lowest", x, y -> y.best(depth), 0);
-            x = at("0,0,0,0,0,0,0,0,1,0,0,0/5,5/1");
-            tells("the only one", x, y -> y.best(depth), 8);
-            error("over", over(), y -> y.best(depth), -6);
-            x = new HostileHouses();
+    // ---- 13: best
+
+    private static void houseOfPlay() {
+        due("best(1)", at("9,0,1,0,1,0,0,2,4,0,0,9/0,0/0").best(1), 2);
+        due("best(1)", at("9,0,1,0,1,0,5,2,4,0,0,9/0,0/0").best(1), 4);
+        due("best(1)", captureOrTakeCare().best(1), 0);
+        due("best(2)", captureOrTakeCare().best(2), 2);
+        for (int depth = 1; depth <= 4; depth++) {
+            due("of several the lowest", at("1,0,0,1,0,0,0,0,0,0,0,0/5,5/0").best(depth), 0);
+            due("the only one", at("0,0,0,0,0,0,0,0,1,0,0,0/5,5/1").best(depth), 8);
+        }
+    }
+
+    private static void depthsOfBest() {
+        int[] inThree = {9, 9, 11, 11};
+        int[] inFour = {9, 9, 9, 10};
+        for (int depth = 1; depth <= 4; depth++) {
+            due("a capture in three moves: best(" + depth + ")", captureInThree().best(depth), inThree[depth - 1]);
+            due("a capture in four moves: best(" + depth + ")", captureInFour().best(depth), inFour[depth - 1]);
+            HostileHouses x = new HostileHouses();
             for (int move = 0; move < 6; move++) {
                 int told = x.best(depth);
-                due("play() as best() tells", x.play(depth), told);
+                due("best(" + depth + ") changes nothing", x.count(6), move);
+                due("play(" + depth + ")", x.play(depth), told);
             }
-        }
-        for (int depth : new int[] {-1, 0, 5, Integer.MIN_VALUE, Integer.MAX_VALUE}) {
-            error("best(" + depth + ")", busy(), y -> y.best(depth), -2);
-            error("best(" + depth + "), over", over(), y -> y.best(depth), -2);
         }
     }
 
-    private static void movesLeft() {
+    private static void noBest() {
+        for (int depth : new int[] {LEAST, -1, 0, 5, MOST}) {
+            leaves("best(" + depth + ")", Checks::busy, x -> x.best(depth), -2);
+            leaves("best(" + depth + "), over", Checks::over, x -> x.best(depth), -2);
+        }
+        for (int depth = 1; depth <= 4; depth++) {
+            due("over: best(" + depth + ")", over().best(depth), -6);
+            due("300 moves: best(" + depth + ")", single(300).best(depth), -6);
+            due("299 moves: best(" + depth + ")", single(299).best(depth), 11);
+        }
+    }
+
+    // ---- 14: movesLeft
+
+    private static void movesUntilTheEnd() {
         for (int depth = 1; depth <= 2; depth++) {
-            int by = depth;
             HostileHouses x = new HostileHouses();
             int told = x.movesLeft(depth);
-            tells("movesLeft(" + depth + ")", x, y -> y.movesLeft(by), told);
             int made = 0;
-            while (x.count(1) == 0 && made < 400) {
+            while (x.count(1) == 0 && made < 300) {
                 if (made % 10 == 0) {
-                    due("movesLeft(" + depth + ")", x.movesLeft(depth), told - made);
+                    due("movesLeft(" + depth + ") behind " + made, x.movesLeft(depth), told - made);
                 }
                 x.play(depth);
                 made++;
             }
             due("movesLeft(" + depth + ") of a new game", told, made);
             due("over: movesLeft(" + depth + ")", x.movesLeft(depth), 0);
-            due("over at once: movesLeft(" + depth + ")", over().movesLeft(depth), 0);
-            x = at("1,0,0,0,0,0,0,0,0,0,0,0/99,99/0");
-            due("300 moves: movesLeft(" + depth + ")", x.movesLeft(depth), 300);
-            x.move(0);
-            due("299 moves: movesLeft(" + depth + ")", x.movesLeft(depth), 299);
-        }
-        for (int depth : new int[] {-1, 0, 3, Integer.MIN_VALUE, Integer.MAX_VALUE}) {
-            error("movesLeft(" + depth + ")", busy(), y -> y.movesLeft(depth), -2);
-            error("movesLeft(" + depth + "), over", over(), y -> y.movesLeft(depth), -2);
         }
     }
 
-    private static void put() {
-        HostileHouses x = new HostileHouses();
-        due("one character", x.put('1'), 1);
-        due("two characters", x.put(packed(",2")), 3);
-        due("eight characters", x.put(packed(",3,4,5,6")), 11);
-        due("the order of the characters", x.fault(), 11);
-        due("count(12)", x.count(12), 11);
-        due("not a change: count(13)", x.count(13), 0);
-        due("the lowest code", x.put(33), 12);
-        due("the highest code", x.put(126), 13);
-        due("the first that can't stand there", x.fault(), 11);
+    private static void depthsOfMovesLeft() {
+        for (int depth = 1; depth <= 2; depth++) {
+            due("over at once: movesLeft(" + depth + ")", over().movesLeft(depth), 0);
+            due("the next one ends it: movesLeft(" + depth + ")",
+                at("0,0,1,0,0,0,0,0,1,0,0,0/4,6/0").movesLeft(depth), 1);
+            due("300 moves: movesLeft(" + depth + ")", at(SINGLE_SEED).movesLeft(depth), 300);
+            due("299 moves: movesLeft(" + depth + ")", single(1).movesLeft(depth), 299);
+            due("the 300th move: movesLeft(" + depth + ")", single(299).movesLeft(depth), 1);
+            due("behind it: movesLeft(" + depth + ")", single(300).movesLeft(depth), 0);
+        }
+    }
 
-        long[] bad = {0, 32, 127, 255, 1, -1, Long.MIN_VALUE, Long.MAX_VALUE, packed("1 2"), packed("1") << 8,
-            packed("1") << 56, packed("1") << 16 | '2', packed("12345678") & ~0xFF00L, packed("1234567") << 8,
-            packed("12345678") | 0x8000000000000000L, 0x1F00L | '1', 0x0100000000000031L};
-        for (long characters : bad) {
-            error("put(" + characters + ")", busy(), y -> y.put(characters), -2);
+    private static void noSuchDepthOfMovesLeft() {
+        for (int depth : new int[] {LEAST, -1, 0, 3, MOST}) {
+            leaves("movesLeft(" + depth + ")", Checks::busy, x -> x.movesLeft(depth), -2);
+            leaves("movesLeft(" + depth + "), over", Checks::over, x -> x.movesLeft(depth), -2);
         }
-        x = new HostileHouses();
-        for (int length = 8; length <= 56; length += 8) {
-            due("put(8 characters)", x.put(packed("~~~~~~~~")), length);
-        }
-        error("5 characters behind 56", x, y -> y.put(packed("12345")), -4);
-        error("8 characters behind 56", x, y -> y.put(packed("12345678")), -4);
-        due("4 characters behind 56", x.put(packed("1234")), 60);
-        error("a full pad", x, y -> y.put('1'), -4);
-        for (long characters : bad) {
-            error("a full pad, put(" + characters + ")", x, y -> y.put(characters), -2);
-        }
-        due("count(12)", x.count(12), 60);
+    }
+
+    // ---- 15: put
+
+    private static void appends() {
+        HostileHouses x = new HostileHouses();
+        due("put(\"1\")", x.put('1'), 1);
+        due("put(\",2\")", x.put(packed(",2")), 3);
+        due("put(\",3,4,5,6\")", x.put(packed(",3,4,5,6")), 11);
+        due("put(\",7,8,9,\")", x.put(packed(",7,8,9,")), 18);
+        due("put(\"10,11,12\")", x.put(packed("10,11,12")), 26);
+        due("put(\"/13,14/1\")", x.put(packed("/13,14/1")), 34);
+        due("not a change: count(13)", x.count(13), 0);
+        x.read();
+        seeds(x, 1, 2, 3, 4, 5, 6, 7, 8, 9, 10, 11, 12);
+        stores(x, 13, 14);
         x = busy();
         x.undo();
         due("undo leaves the pad", x.count(12), 5);
     }
 
-    private static void wipe() {
+    private static void lowestBitsAreTheLast() {
+        due("'1' and ','", new HostileHouses().put('1' << 8 | ','), 2);
         HostileHouses x = new HostileHouses();
-        due("an empty pad", x.wipe(), 0);
-        x.put(packed("12,"));
+        x.put('1' << 8 | ',');
+        due("\"1,\": fault()", x.fault(), 2);
+        x = new HostileHouses();
+        x.put(',' << 8 | '1');
+        due("\",1\": fault()", x.fault(), 0);
+    }
+
+    private static void zerosMeanNoMore() {
+        String eight = "12345678";
+        for (int length = 1; length <= 8; length++) {
+            long characters = packed(eight.substring(0, length));
+            due("put of " + length, new HostileHouses().put(characters), length);
+            for (int hole = 0; hole < length - 1; hole++) {
+                long holed = characters & ~(255L << 8 * hole);
+                leaves("put(" + holed + ")", HostileHouses::new, x -> x.put(holed), -2);
+            }
+            for (int bit = 8 * length + 8; bit < 64; bit++) {
+                long more = characters | 1L << bit;
+                leaves("put(" + more + ")", HostileHouses::new, x -> x.put(more), -2);
+            }
+        }
+    }
+
+    private static void oneToEight() {
+        due("one: put()", new HostileHouses().put('~'), 1);
+        due("eight: put()", new HostileHouses().put(packed("~!~!~!~!")), 8);
+        leaves("none: put(0)", Checks::busy, x -> x.put(0), -2);
+    }
+
+    private static void codes() {
+        for (int place = 0; place < 8; place++) {
+            int shift = 8 * place;
+            long others = packed("!!!!!!!!") >>> 64 - shift;
+            others = place == 0 ? 0 : others;
+            long below = others;
+            due("code 33: put()", new HostileHouses().put(below | 33L << shift), place + 1);
+            due("code 126: put()", new HostileHouses().put(below | 126L << shift), place + 1);
+            for (long code : new long[] {1, 10, 31, 32, 127, 128, 160, 255}) {
+                long characters = below | code << shift;
+                leaves("put(" + characters + ")", Checks::busy, x -> x.put(characters), -2);
+            }
+        }
+        for (long characters : new long[] {-1, Long.MIN_VALUE, Long.MAX_VALUE}) {
+            leaves("put(" + characters + ")", Checks::busy, x -> x.put(characters), -2);
+            leaves("a full pad: put(" + characters + ")", Checks::fullPad, x -> x.put(characters), -2);
+        }
+        leaves("a full pad: put(0)", Checks::fullPad, x -> x.put(0), -2);
+        leaves("a full pad: put(32)", Checks::fullPad, x -> x.put(32), -2);
+    }
+
+    private static void tooMany() {
+        for (int length = 52; length <= 60; length++) {
+            String text = "~".repeat(length);
+            for (int more = 1; more <= 8; more++) {
+                long characters = packed("12345678".substring(0, more));
+                HostileHouses x = pad(text);
+                due(length + " and " + more, x.put(characters), length + more <= 60 ? length + more : -4);
+                due(length + " and " + more + ": count(12)", x.count(12), length + more <= 60 ? length + more : length);
+            }
+        }
+        leaves("60 and 1", Checks::fullPad, x -> x.put('1'), -4);
+        // what is refused leaves no character
+        HostileHouses x = pad(ZEROS.substring(0, 28) + "1");
+        x.put(' ');
+        x.put(0);
+        x.put(-1);
+        x.put(packed("1 "));
+        due("behind wrong ones: read()", x.read(), 0);
+        due("behind wrong ones: count(0)", x.count(0), 1);
+    }
+
+    // ---- 16: wipe
+
+    private static void wiped() {
+        due("an empty pad: wipe()", new HostileHouses().wipe(), 0);
+        due("a full pad: wipe()", fullPad().wipe(), 60);
+        HostileHouses x = pad("12,");
         due("wipe()", x.wipe(), 3);
         due("count(12)", x.count(12), 0);
+        due("fault()", x.fault(), 0);
         due("wipe() again", x.wipe(), 0);
-        due("not a change: count(13)", x.count(13), 0);
-        write(x, "~".repeat(60));
-        due("a full pad", x.wipe(), 60);
-        due("put behind it", x.put('1'), 1);
-        due("what stood there is gone", x.fault(), 1);
-        x = busy();
-        String before = game(x);
-        due("wipe()", x.wipe(), 5);
-        due("nothing but the pad is different", game(x).equals(before) ? 1 : 0, 1);
-    }
-
-    private static void fault() {
-        String houses = "0,1,2,3,4,5,6,7,8,9,10,11";
-        String good = houses + "/12,99/1";
-        Object[][] texts = {
-            {"", 0}, {good, -6}, {houses + "/0,0/0", -6},
-            {"99,99,99,99,99,99,99,99,99,99,99,99/99,99/1", -6},
-            {"x", 0}, {",", 0}, {"/", 0}, {"-1", 0}, {"+1", 0}, {"0", 1}, {"9", 1}, {"99", 2}, {"990", 2}, {"100", 2},
-            {"00", 1}, {"01", 1}, {"0/", 1}, {"1/", 1}, {"10/", 2}, {"0,", 2}, {"0,,", 2}, {"0,/", 2}, {"0.", 1},
-            {"1,2,x,00", 4}, {"1:", 1}, {"1!", 1}, {"1a", 1},
-            {houses, 25}, {houses + ",", 25}, {houses + "/", 26}, {houses + "1", 25}, {houses + "//", 26},
-            {houses + "/,", 26}, {houses + "/1", 27}, {houses + "/1/", 27}, {houses + "/100", 28},
-            {houses + "/12,", 29}, {houses + "/12,0", 30}, {houses + "/12,00", 30}, {houses + "/12,0,", 30},
-            {houses + "/12,3/", 31}, {houses + "/12,3/2", 31}, {houses + "/12,3/9", 31}, {houses + "/12,3/,", 31},
-            {houses + "/12,3//", 31}, {houses + "/12,3/00", 32}, {houses + "/12,3/01", 32}, {houses + "/12,3/10", 32},
-            {houses + "/12,3/1,", 32}, {houses + "/12,3/1/", 32}, {houses + "/12,3/0x", 32},
-            {"0,1,2,3,4,5,6,7,8,9,10/", 22}, {"0,1,2,3,4,5,6,7,8,9,10,", 23},
-        };
-        for (Object[] text : texts) {
-            HostileHouses x = write(new HostileHouses(), (String) text[0]);
-            tells("fault of \"" + text[0] + "\"", x, HostileHouses::fault, (Integer) text[1]);
-        }
-        for (int length = 0; length < good.length(); length++) {
-            HostileHouses x = write(new HostileHouses(), good.substring(0, length));
-            due("fault of the first " + length, x.fault(), length);
-        }
-        HostileHouses x = write(new HostileHouses(), good);
-        x.read();
-        due("an empty pad behind read(): fault()", x.fault(), 0);
-        x = write(new HostileHouses(), "1,".repeat(30));
-        due("a full pad: fault()", x.fault(), 23);
-    }
-
-    private static void undo() {
-        HostileHouses x = new HostileHouses();
-        String[] states = new String[9];
-        for (int change = 0; change < 8; change++) {
-            states[change] = game(x);
-            due("a change", x.set(change % 4, 2 + change / 4) > -1 ? 1 : 0, 1);
-        }
-        for (int left = 5; left >= 0; left--) {
-            due("undo()", x.undo(), left);
-            due("as it was ahead of the change", game(x).equals(states[left + 2]) ? 1 : 0, 1);
-        }
-        error("the history is empty: undo()", x, HostileHouses::undo, -5);
-        error("a new object: undo()", new HostileHouses(), HostileHouses::undo, -5);
-
-        // every method that is a change
-        undone("set", busy(), y -> y.set(HostileHouses.LAPS, 0));
-        undone("set to what it is", busy(), y -> y.set(HostileHouses.VISITS, 1));
-        undone("begin", busy(), HostileHouses::begin);
-        undone("move", busy(), y -> y.move(y.best(1)));
-        undone("play", busy(), y -> y.play(2));
-        undone("restore", busy(), y -> y.restore(1));
+        due("put() behind it", x.put('1'), 1);
+        due("what stood there is gone: fault()", x.fault(), 1);
+        noChange("wipe()", Checks::busy, HostileHouses::wipe);
         x = busy();
         x.wipe();
-        undone("read", write(x, "1,1,1,1,1,1,1,1,1,1,1,1/2,3/1"), HostileHouses::read);
-        undone("read of a game that is over", write(new HostileHouses(), "0,0,0,0,0,0,0,0,0,0,0,0/2,3/1"),
-            HostileHouses::read);
-        undone("begin of a game that is over", over(), HostileHouses::begin);
+        same("the game behind wipe()", game(x), game(busy()));
+        x = fullPad();
+        x.wipe();
+        write(x, ZEROS);
+        due("a pad that was full: read()", x.read(), 0);
+    }
 
-        // what is no change is not recorded
-        x = new HostileHouses();
+    // ---- 17: fault
+
+    private static void faultOrNone() {
+        due("none: fault()", pad(ZEROS).fault(), -6);
+        due("none: fault()", pad("99,99,99,99,99,99,99,99,99,99,99,99/99,99/1").fault(), -6);
+        due("the first character: fault()", pad("x").fault(), 0);
+        due("an empty pad: fault()", new HostileHouses().fault(), 0);
+        due("too short: fault()", pad(ZEROS.substring(0, 28)).fault(), 28);
+        due("too long: fault()", pad(ZEROS + "0").fault(), 29);
+        due("a full pad: fault()", fullPad().fault(), 0);
+        due("a full pad, ends too early: fault()", pad("1,".repeat(30)).fault(), 23);
+        leaves("fault()", Checks::busy, HostileHouses::fault, 4);
+        HostileHouses x = pad(ZEROS);
+        due("none: fault()", x.fault(), -6);
+        due("again: fault()", x.fault(), -6);
         x.put('1');
-        x.wipe();
+        due("one more: fault()", x.fault(), 29);
+    }
+
+    // ---- 18: undo
+
+    private static void undoneButPadAndSlots() {
+        HostileHouses x = busy();
+        String before = game(x);
+        x.play(1);
         x.save(0);
-        x.fault();
-        x.best(1);
-        x.worth(1);
-        x.movesLeft(1);
-        x.ifMove(0, 0);
-        due("count(13)", x.count(13), 0);
-        // the slots stay
-        x.move(0);
-        x.save(1);
+        String saved = game(x);
+        write(x, ",7");
         x.undo();
-        due("restore(1) behind undo()", x.restore(1), 1);
-        // undo takes its state out of the history, and new ones follow
+        same("behind undo()", game(x), before);
+        due("the pad stays: count(12)", x.count(12), 7);
+        due("the slot stays: restore(0)", x.restore(0), 8);
+        same("the slot stays", game(x), saved);
+        x.undo();
+        same("behind undo() of restore()", game(x), before);
+        x = pad(ZEROS);
+        x.read();
+        x.undo();
+        due("the pad that was read stays empty: count(12)", x.count(12), 0);
         x = new HostileHouses();
-        for (int change = 0; change < 20; change++) {
-            x.set(HostileHouses.LAPS, change);
+        x.save(0);
+        x.move(0);
+        x.undo();
+        due("a slot of before: restore(0)", x.restore(0), 0);
+        // wiping isn't undone
+        x = busy();
+        x.wipe();
+        x.undo();
+        due("count(12)", x.count(12), 0);
+    }
+
+    private static void atMostSixStates() {
+        for (int changes = 0; changes <= 8; changes++) {
+            HostileHouses x = new HostileHouses();
+            for (int change = 1; change <= changes; change++) {
+                x.set(HostileHouses.LAPS, change + 6);
+            }
+            int kept = Math.min(changes, 6);
+            due(changes + " changes: count(13)", x.count(13), kept);
+            for (int left = kept - 1; left >= 0; left--) {
+                due(changes + " changes: undo()", x.undo(), left);
+                due(changes + " changes, " + left + " left: count(9)", x.count(9), changes - kept + left + 6);
+            }
+            due(changes + " changes: undo()", x.undo(), -5);
+        }
+    }
+
+    private static void everyChangeIsRecorded() {
+        change("set()", HostileHouses::new, x -> x.set(2, 5));
+        change("begin()", HostileHouses::new, HostileHouses::begin);
+        change("move()", HostileHouses::new, x -> x.move(3));
+        change("play()", HostileHouses::new, x -> x.play(2));
+        change("read()", () -> pad(SINGLE_SEED), HostileHouses::read);
+        change("restore()", Checks::busy, x -> x.restore(0));
+        noChange("put()", HostileHouses::new, x -> x.put('1'));
+        noChange("wipe()", HostileHouses::new, HostileHouses::wipe);
+        noChange("save()", HostileHouses::new, x -> x.save(0));
+        noChange("ifMove()", HostileHouses::new, x -> x.ifMove(0, 0));
+        noChange("worth()", HostileHouses::new, x -> x.worth(2));
+        noChange("best()", HostileHouses::new, x -> x.best(2));
+        noChange("movesLeft()", HostileHouses::new, x -> x.movesLeft(1));
+        // refused ones
+        noChange("set()", HostileHouses::new, x -> x.set(2, 21));
+        noChange("move()", HostileHouses::new, x -> x.move(12));
+        noChange("play()", HostileHouses::new, x -> x.play(5));
+        noChange("read()", HostileHouses::new, HostileHouses::read);
+        noChange("restore()", HostileHouses::new, x -> x.restore(0));
+        nothingIsDifferent();
+    }
+
+    private static void nothingIsDifferent() {
+        HostileHouses x = new HostileHouses();
+        x.save(1);
+        x.begin();
+        due("a new game again: count(13)", x.count(13), 1);
+        x.set(HostileHouses.SEEDS, 4);
+        due("a setting as it is: count(13)", x.count(13), 2);
+        x.restore(1);
+        due("a state as it is: count(13)", x.count(13), 3);
+        write(x, "4,4,4,4,4,4,4,4,4,4,4,4/0,0/0");
+        x.read();
+        due("a position as it is: count(13)", x.count(13), 4);
+        for (int left = 3; left >= 0; left--) {
+            due("undo()", x.undo(), left);
+            counts(x, 0, 0, -6, 0, 0, 48, 0, 4, 3, 6, 1, 0, 0, left);
+        }
+    }
+
+    private static void oldestIsDropped() {
+        HostileHouses x = new HostileHouses();
+        for (int value = 0; value < 20; value++) {
+            x.set(HostileHouses.LAPS, value);
         }
         due("undo()", x.undo(), 5);
         due("undo()", x.undo(), 4);
         due("count(9)", x.count(9), 17);
         x.set(HostileHouses.LAPS, 20);
-        due("count(13)", x.count(13), 5);
-        due("undo()", x.undo(), 4);
-        due("count(9)", x.count(9), 17);
-        due("undo()", x.undo(), 3);
-        due("count(9)", x.count(9), 16);
-    }
-
-    private static void undone(String name, HostileHouses x, ToIntFunction<HostileHouses> change) {
-        String before = game(x);
-        int recorded = x.count(13);
-        due(name + " returns no error", change.applyAsInt(x) >= 0 ? 1 : 0, 1);
-        due(name + " is recorded", x.count(13), Math.min(6, recorded + 1));
-        due("undo of " + name, x.undo(), Math.min(6, recorded + 1) - 1);
-        due("as it was ahead of " + name, game(x).equals(before) ? 1 : 0, 1);
-    }
-
-    private static void save() {
-        HostileHouses x = new HostileHouses();
-        tells("save(0)", x, y -> y.save(0), 0);
-        x.move(2);
-        tells("save(1)", x, y -> y.save(1), 1);
-        due("restore(0)", x.restore(0), 0);
-        due("restore(1)", x.restore(1), 1);
-        x.play(1);
-        x.play(1);
-        due("save(0) again", x.save(0), 3);
-        x.begin();
-        due("what was there is overwritten", x.restore(0), 3);
-        due("the other slot is not", x.restore(1), 1);
-        for (int slot : new int[] {-1, 2, Integer.MIN_VALUE, Integer.MAX_VALUE}) {
-            error("save(" + slot + ")", busy(), y -> y.save(slot), -2);
+        due("recorded behind undo(): count(13)", x.count(13), 5);
+        x.set(HostileHouses.LAPS, 19);
+        due("the sixth: count(13)", x.count(13), 6);
+        x.set(HostileHouses.LAPS, 18);
+        due("the seventh: count(13)", x.count(13), 6);
+        int[] values = {19, 20, 17, 16, 15, 14};
+        for (int i = 0; i < 6; i++) {
+            due("undo()", x.undo(), 5 - i);
+            due("count(9)", x.count(9), values[i]);
         }
-        due("the slots of two objects", new HostileHouses().restore(0), -5);
+        due("undo()", x.undo(), -5);
     }
 
-    private static void restore() {
+    private static void changesThatCanBeUndone() {
+        leaves("none: undo()", HostileHouses::new, HostileHouses::undo, -5);
+        HostileHouses x = single(1);
+        due("one is left: undo()", x.undo(), 1);
+        due("none is left: undo()", x.undo(), 0);
+        due("none: undo()", x.undo(), -5);
+        due("as at first: count(5)", x.count(5), 48);
+        due("none, again: undo()", x.undo(), -5);
+        x.begin();
+        due("one more: undo()", x.undo(), 0);
+        due("six: undo()", busy().undo(), 5);
+    }
+
+    // ---- 19: save
+
+    private static void saved() {
+        HostileHouses x = busy();
+        x.save(0);
+        String saved = game(x);
+        x.set(HostileHouses.TOLL, 3);
+        x.play(2);
+        x.wipe();
+        int recorded = x.count(13);
+        x.save(1);
+        due("save() is no change: count(13)", x.count(13), recorded);
+        x.restore(0);
+        same("what was saved", game(x), saved);
+        due("the pad is not saved: count(12)", x.count(12), 0);
+        due("the history is not saved: undo()", x.undo(), 5);
+        due("count(10)", x.count(10), 3);
+        due("the slots are not saved: restore(1)", x.restore(1), 8);
+        // what comes later does not reach what was saved
+        x = new HostileHouses();
+        x.save(0);
+        x.move(0);
+        x.set(HostileHouses.LAPS, 0);
+        x.restore(0);
+        counts(x, 0, 0, -6, 0, 0, 48, 0, 4, 3, 6, 1, 0, 0, 3);
+    }
+
+    private static void overwritten() {
+        HostileHouses x = single(1);
+        x.save(0);
+        x.save(1);
+        x.move(1);
+        due("save(0) again", x.save(0), 2);
+        x.begin();
+        due("what was there is overwritten: restore(0)", x.restore(0), 2);
+        due("the other slot is not: restore(1)", x.restore(1), 1);
+    }
+
+    private static void slotsOfSave() {
+        HostileHouses x = new HostileHouses();
+        due("save(0)", x.save(0), 0);
+        due("the other one is empty: restore(1)", x.restore(1), -5);
+        x = new HostileHouses();
+        due("save(1)", x.save(1), 0);
+        due("the other one is empty: restore(0)", x.restore(0), -5);
+    }
+
+    private static void movesOfSave() {
+        due("no moves: save(0)", new HostileHouses().save(0), 0);
+        due("one move: save(1)", single(1).save(1), 1);
+        due("the most moves: save(0)", single(300).save(0), 300);
+        due("over at once: save(0)", over().save(0), 0);
+        for (int slot : new int[] {LEAST, -1, 2, MOST}) {
+            leaves("save(" + slot + ")", Checks::busy, x -> x.save(slot), -2);
+            leaves("save(" + slot + ")", HostileHouses::new, x -> x.save(slot), -2);
+        }
+    }
+
+    // ---- 20: restore
+
+    private static void restored() {
         HostileHouses x = busy();
         String saved = game(x);
         x.set(HostileHouses.TOLL, 3);
         x.play(1);
-        x.play(1);
-        String later = game(x);
         due("restore(1)", x.restore(1), 7);
-        due("all is as it was saved", game(x).equals(saved) ? 1 : 0, 1);
-        due("the pad stays", x.count(12), 5);
-        due("a change: undo()", x.undo(), 5);
-        due("as ahead of restore()", game(x).equals(later) ? 1 : 0, 1);
+        same("what was saved", game(x), saved);
+        due("the pad stays: count(12)", x.count(12), 5);
         x.begin();
-        due("the slot keeps it", x.restore(1), 7);
+        due("the slot keeps it: restore(1)", x.restore(1), 7);
         x.play(2);
-        due("the slot keeps it still", x.restore(1), 7);
-        due("all is as it was saved", game(x).equals(saved) ? 1 : 0, 1);
-        x.wipe();
-        x.restore(1);
-        due("the pad stays empty", x.count(12), 0);
+        x.undo();
+        due("the slot keeps it still: restore(1)", x.restore(1), 7);
+        same("what was saved", game(x), saved);
+        x.save(1);
+        due("the last one: restore(1)", x.restore(1), 7);
         x = over();
         x.save(0);
         x.begin();
-        x.restore(0);
-        due("count(1)", x.count(1), 1);
-        x = new HostileHouses();
-        x.save(0);
-        due("count(13)", x.count(13), 0);
-        x.restore(0);
-        due("recorded, though nothing is different", x.count(13), 1);
-
-        error("nothing was saved", new HostileHouses(), y -> y.restore(0), -5);
-        error("nothing was saved in this one", busy(), y -> y.restore(0), -5);
-        for (int slot : new int[] {-1, 2, Integer.MIN_VALUE, Integer.MAX_VALUE}) {
-            error("restore(" + slot + ")", busy(), y -> y.restore(slot), -2);
-        }
+        due("a game that is over: restore(0)", x.restore(0), 0);
+        counts(x, 1, 1, 0, 10, 2, 12, 0);
     }
 
-    public static void main(String[] args) {
-        Runnable[] promises = {PromisesTest::aNewObject, PromisesTest::set, PromisesTest::begin, PromisesTest::move,
-            PromisesTest::play, PromisesTest::read, PromisesTest::house, PromisesTest::count, PromisesTest::last,
-            PromisesTest::moved, PromisesTest::ifMove, PromisesTest::worth, PromisesTest::best,
-            PromisesTest::movesLeft, PromisesTest::put, PromisesTest::wipe, PromisesTest::fault, PromisesTest::undo,
-            PromisesTest::save, PromisesTest::restore};
-        for (Runnable one : promises) {
-            promise++;
-            one.run();
+    private static void restoreIsAChange() {
+        change("restore(0)", Checks::busy, x -> x.restore(0));
+        change("restore(1), nothing is different", Checks::busy, x -> x.restore(1));
+        noChange("restore(2)", Checks::busy, x -> x.restore(2));
+        noChange("restore(0), nothing saved", HostileHouses::new, x -> x.restore(0));
+    }
+
+    private static void slotsOfRestore() {
+        HostileHouses x = single(2);
+        x.save(0);
+        x.move(2);
+        x.save(1);
+        due("restore(0)", x.restore(0), 2);
+        due("restore(1)", x.restore(1), 3);
+    }
+
+    private static void movesOfRestore() {
+        HostileHouses x = single(300);
+        x.save(0);
+        x.begin();
+        x.save(1);
+        due("no moves: restore(1)", x.restore(1), 0);
+        due("the most moves: restore(0)", x.restore(0), 300);
+        due("moved(299)", x.moved(299), 11);
+        due("count(1)", x.count(1), 1);
+        due("move(0)", x.move(0), -5);
+        for (int slot : new int[] {LEAST, -1, 2, MOST}) {
+            leaves("restore(" + slot + ")", Checks::busy, y -> y.restore(slot), -2);
+            leaves("restore(" + slot + "), nothing saved", HostileHouses::new, y -> y.restore(slot), -2);
         }
-        System.out.println(wrong == 0 ? "all promises are kept" : wrong + " answers are not as due");
-        if (wrong != 0) {
-            System.exit(1);
-        }
+        leaves("nothing saved: restore(0)", Checks::over, y -> y.restore(0), -5);
+        leaves("nothing saved: restore(1)", Checks::over, y -> y.restore(1), -5);
+    }
+
+    // ---- the document, sentence by sentence
+
+    public static void main(String[] args) throws IOException {
+        changes();
+        whatThereIs();
+        whatIf();
+        textsAndStates();
+        end("all promises are kept");
+    }
+
+    private static void changes() throws IOException {
+        new Part("## Promise 1: A new object")
+            .says("`HostileHouses()`:")
+            .holds("Begins a game with the first settings.", PromisesTest::firstSettings)
+            .end();
+        new Part("## Promise 2: set")
+            .says("`int set(int setting, int value)`:")
+            .holds("Changes a setting; the game goes on by it", PromisesTest::gameGoesOnBySetting)
+            .holds("(SEEDS matters for the next game alone).", PromisesTest::seedsMatterForTheNextGame)
+            .holds("This is a change.", PromisesTest::setIsAChange)
+            .holds("Returns the previous value;", PromisesTest::previousValue)
+            .holds("BAD_VALUE if there is no such setting, or the value is out of its range.",
+                PromisesTest::noSuchSettingOrValue)
+            .end();
+        new Part("## Promise 3: begin")
+            .says("`int begin()`:")
+            .holds("Begins a game.", PromisesTest::beginBegins)
+            .holds("This is a change.", PromisesTest::beginIsAChange)
+            .holds("Returns how many moves were made in the one before.", PromisesTest::movesOfTheOneBefore)
+            .end();
+        new Part("## Promise 4: move")
+            .says("`int move(int house)`:")
+            .holds("The player to move makes a move.", PromisesTest::moveIsMade)
+            .holds("This is a change.", PromisesTest::moveIsAChange)
+            .holds("Returns how many laps it had;", PromisesTest::lapsOfAMove)
+            .holds("NO_SUCH if there is no such house;", PromisesTest::moveOfNoHouse)
+            .holds("NOT_POSSIBLE if the game is over, the house is not the player's, or has no seeds.",
+                PromisesTest::moveIsNotPossible)
+            .end();
+        new Part("## Promise 5: play")
+            .says("`int play(int depth)`:")
+            .holds("The player to move makes the best move by a depth: one behind which the worth of the position is "
+                + "the greatest,", PromisesTest::bestMove)
+            .holds("of several the one from the house with the lowest number.", PromisesTest::lowestOfSeveral)
+            .holds("This is a change.", PromisesTest::playIsAChange)
+            .holds("- `depth`: 1 to 4", PromisesTest::depthsOfPlay)
+            .holds("Returns the house; BAD_VALUE if depth is out of range; NOT_POSSIBLE if the game is over.",
+                PromisesTest::playIsNotPossible)
+            .end();
+        new Part("## Promise 6: read")
+            .says("`int read()`:")
+            .holds("Begins a game with the position of the pad (without visits),", PromisesTest::readBegins)
+            .holds("and empties the pad.", PromisesTest::readEmptiesThePad)
+            .holds("If all houses are empty, or one of the stores has more than half of all seeds, it is over at once, "
+                + "as behind a move (the player of the pad is said to be to move);", PromisesTest::readOfAGameThatIsOver)
+            .holds("otherwise, if the player to move has no seeds in its own houses, the other one is to move.",
+                PromisesTest::readGivesTheTurn)
+            .holds("This is a change.", PromisesTest::readIsAChange)
+            .holds("Returns the seeds of all houses and stores together;", PromisesTest::seedsOfAll)
+            .holds("BAD_TEXT if the pad has a fault.", PromisesTest::readOfAFault)
+            .end();
+    }
+
+    private static void whatThereIs() throws IOException {
+        new Part("## Promise 7: house")
+            .says("`int house(int house, int what)`:")
+            .holds("Returns something about a house.", PromisesTest::aboutAHouse)
+            .holds("- `what`: 0 its seeds, 1 its visits, 2 whether it is hostile (1 or 0)", PromisesTest::whatOfAHouse)
+            .holds("Returns the number; NO_SUCH if there is no such house; BAD_VALUE if what is out of range.",
+                PromisesTest::noSuchHouse)
+            .end();
+        new Part("## Promise 8: count")
+            .says("`int count(int what)`: Returns a number.")
+            .holds("- `what`: 0 the player to move, 1 whether the game is over (1 or 0), 2 who wins (0, 1, or 2 for "
+                + "nobody; NONE if it is not over), 3, 4 the seeds in the stores of the players 0 and 1, 5 all seeds, "
+                + "in houses and stores, 6 moves that were made, 7 to 10 the settings, 11 houses that are hostile, 12 "
+                + "the length of the pad, 13 how many changes can be undone", PromisesTest::whatIsCounted)
+            .holds("Returns the number; BAD_VALUE if what is out of range.", PromisesTest::noSuchCount)
+            .end();
+        new Part("## Promise 9: last")
+            .says("`int last(int what)`:")
+            .holds("Returns something about the latest move of this game.", PromisesTest::latestMove)
+            .holds("- `what`: 0 the house from which it began, 1 its laps, 2 the last house of its last lap, 3 seeds "
+                + "that were captured (from both houses), 4 tolls that were paid, in seeds",
+                PromisesTest::whatOfTheLatestMove)
+            .holds("Returns the number; BAD_VALUE if what is out of range; NONE if no move was made.",
+                PromisesTest::noMoveYet)
+            .end();
+        new Part("## Promise 10: moved")
+            .says("`int moved(int move)`: Returns the house from which a move of this game began.")
+            .holds("- `move`: 0 for the first one", PromisesTest::movesOfThisGame)
+            .holds("Returns the house; NO_SUCH if there is no such move.", PromisesTest::noSuchMove)
+            .end();
+    }
+
+    private static void whatIf() throws IOException {
+        new Part("## Promise 11: ifMove")
+            .says("`int ifMove(int house, int what)`:")
+            .holds("Tells what a move would bring.", PromisesTest::whatAMoveWouldBring)
+            .holds("- `what`: 0 its laps, 1 the last house, 2 seeds that are captured, 3 tolls, in seeds, 4 the seeds of "
+                + "the player's store behind it less those ahead of it, and 10000, 5 the player to move behind it, 6 "
+                + "whether the game is over then (1 or 0)", PromisesTest::whatOfAMove)
+            .holds("Returns the number; NO_SUCH and NOT_POSSIBLE as for move(); BAD_VALUE if what is out of range.",
+                PromisesTest::ifMoveIsRefused)
+            .end();
+        new Part("## Promise 12: worth")
+            .says("`int worth(int depth)`:")
+            .holds("Returns the worth of the position for the player to move.", PromisesTest::worthOfThePosition)
+            .holds("- `depth`: 0 to 4", PromisesTest::depthsOfWorth)
+            .holds("Returns the worth, and 10000; BAD_VALUE if depth is out of range.", PromisesTest::noSuchDepthOfWorth)
+            .end();
+        new Part("## Promise 13: best")
+            .says("`int best(int depth)`:")
+            .holds("Returns the house from which play() would move.", PromisesTest::houseOfPlay)
+            .holds("- `depth`: 1 to 4", PromisesTest::depthsOfBest)
+            .holds("Returns the house; BAD_VALUE if depth is out of range; NONE if the game is over.",
+                PromisesTest::noBest)
+            .end();
+        new Part("## Promise 14: movesLeft")
+            .says("`int movesLeft(int depth)`:")
+            .holds("Tells how many moves there would be, from now on, until the game is over, if both players made the "
+                + "best moves by a depth.", PromisesTest::movesUntilTheEnd)
+            .holds("- `depth`: 1 or 2", PromisesTest::depthsOfMovesLeft)
+            .holds("Returns how many; BAD_VALUE if depth is neither.", PromisesTest::noSuchDepthOfMovesLeft)
+            .end();
+    }
+
+    private static void textsAndStates() throws IOException {
+        new Part("## Promise 15: put")
+            .says("`int put(long characters)`:")
+            .holds("Appends characters to the pad.", PromisesTest::appends)
+            .holds("They are given as a number: its lowest 8 bits are the last character, the next 8 bits the one "
+                + "before, and so on;", PromisesTest::lowestBitsAreTheLast)
+            .holds("8 bits that are 0 mean that there are no more characters, and everything above them has to be 0, "
+                + "too.", PromisesTest::zerosMeanNoMore)
+            .holds("- `characters`: 1 to 8 characters", PromisesTest::oneToEight)
+            .holds("Returns the length of the pad then; BAD_VALUE if there is no character, a code is not 33 to 126, or "
+                + "a bit above 8 bits that are 0 is not 0;", PromisesTest::codes)
+            .holds("TOO_MANY if the pad would be longer than 60.", PromisesTest::tooMany)
+            .end();
+        new Part("## Promise 16: wipe")
+            .says("`int wipe()`:")
+            .holds("Empties the pad, and returns the length that it had.", PromisesTest::wiped)
+            .end();
+        new Part("## Promise 17: fault")
+            .says("`int fault()`:")
+            .holds("Returns the fault of the pad, NONE if there is none.", PromisesTest::faultOrNone)
+            .end();
+        new Part("## Promise 18: undo")
+            .says("`int undo()`:")
+            .holds("Undoes the latest change: everything except the pad, the slots and the history is as it was before "
+                + "it.", PromisesTest::undoneButPadAndSlots)
+            .holds("A history of at most 6 states is kept:", PromisesTest::atMostSixStates)
+            .holds("each method that is a change, and returns no error, records the state before it (also if nothing is "
+                + "different then);", PromisesTest::everyChangeIsRecorded)
+            .holds("when one more is recorded, the oldest one is dropped.", PromisesTest::oldestIsDropped)
+            .holds("Returns how many changes can be undone then; NOT_POSSIBLE if there is none.",
+                PromisesTest::changesThatCanBeUndone)
+            .end();
+        new Part("## Promise 19: save")
+            .says("`int save(int slot)`:")
+            .holds("Saves everything except the pad, the history and the slots in a slot,", PromisesTest::saved)
+            .holds("and overwrites what was saved there.", PromisesTest::overwritten)
+            .holds("- `slot`: 0 or 1", PromisesTest::slotsOfSave)
+            .holds("Returns how many moves were made; BAD_VALUE if there is no such slot.", PromisesTest::movesOfSave)
+            .end();
+        new Part("## Promise 20: restore")
+            .says("`int restore(int slot)`:")
+            .holds("Restores what was saved last in a slot, which keeps it.", PromisesTest::restored)
+            .holds("This is a change.", PromisesTest::restoreIsAChange)
+            .holds("- `slot`: 0 or 1", PromisesTest::slotsOfRestore)
+            .holds("Returns how many moves were made then; BAD_VALUE if there is no such slot; NOT_POSSIBLE if nothing "
+                + "was saved in it.", PromisesTest::movesOfRestore)
+            .end();
     }
 }
