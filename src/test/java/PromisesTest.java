@@ -551,6 +551,7 @@ public final class PromisesTest extends Checks {
         x.undo();
         x.undo();
         due("that game again: moved(18)", x.moved(18), 6);
+        due("its first move: moved(0)", x.moved(0), 0);
         write(x, SINGLE_SEED);
         x.read();
         due("a game read: moved(0)", x.moved(0), -1);
@@ -892,11 +893,36 @@ public final class PromisesTest extends Checks {
         x.move(0);
         x.undo();
         due("a slot of before: restore(0)", x.restore(0), 0);
+        latestMoveAndRecordComeBack();
         // wiping isn't undone
         x = busy();
         x.wipe();
         x.undo();
         due("count(12)", x.count(12), 0);
+    }
+
+    private static void latestMoveAndRecordComeBack() {
+        HostileHouses x = captureOrTakeCare();
+        x.move(0);
+        x.move(8);
+        last(x, 8, 1, 9, 9, 0);
+        x.undo();
+        last(x, 0, 1, 1, 5, 0);
+        x.begin();
+        x.move(2);
+        x.undo();
+        x.undo();
+        last(x, 0, 1, 1, 5, 0);
+        due("moved(0)", x.moved(0), 0);
+        due("moved(1)", x.moved(1), -1);
+        x = withHostileHouses(5, 3, 0);
+        x.move(4);
+        x.save(0);
+        x.move(11);
+        last(x, 11, 1, 9, 2, 0);
+        x.undo();
+        last(x, 4, 1, 6, 0, 3);
+        due("moved(2)", x.moved(2), 4);
     }
 
     private static void atMostSixStates() {
@@ -1067,11 +1093,32 @@ public final class PromisesTest extends Checks {
         same("what was saved", game(x), saved);
         x.save(1);
         due("the last one: restore(1)", x.restore(1), 7);
+        latestMoveAndRecordAreRestored();
         x = over();
         x.save(0);
         x.begin();
         due("a game that is over: restore(0)", x.restore(0), 0);
         counts(x, 1, 1, 0, 10, 2, 12, 0);
+    }
+
+    private static void latestMoveAndRecordAreRestored() {
+        HostileHouses x = captureOrTakeCare();
+        x.move(0);
+        x.save(0);
+        x.begin();
+        x.move(2);
+        last(x, 2, 1, 6, 0, 0);
+        x.restore(0);
+        last(x, 0, 1, 1, 5, 0);
+        due("moved(0)", x.moved(0), 0);
+        x = withHostileHouses(5, 3, 0);
+        x.move(4);
+        x.save(0);
+        x.move(11);
+        x.restore(0);
+        last(x, 4, 1, 6, 0, 3);
+        due("moved(2)", x.moved(2), 4);
+        due("moved(3)", x.moved(3), -1);
     }
 
     private static void restoreIsAChange() {
