@@ -32,9 +32,10 @@ public final class TermsTest extends Checks {
     }
 
     private static void refusedCallsChangeNothing() {
-        refused(Checks::busy, 1);
-        refused(Checks::over, 2);
-        refused(HostileHouses::new, 0);
+        int ownOfBusy = busy().best(1);
+        refused(Checks::busy, 11 - ownOfBusy);
+        refused(Checks::over, 0);
+        refused(HostileHouses::new, 6);
         leaves("a full pad: put('1')", Checks::fullPad, x -> x.put('1'), -4);
         leaves("a full pad: put(0)", Checks::fullPad, x -> x.put(0), -2);
         leaves("nothing to undo: undo()", HostileHouses::new, HostileHouses::undo, -5);
@@ -44,15 +45,14 @@ public final class TermsTest extends Checks {
         leaves("over: ifMove(0, 0)", Checks::over, x -> x.ifMove(0, 0), -5);
     }
 
-    /** The calls that are refused in any state; from the given own house no move is possible. */
-    private static void refused(Supplier<HostileHouses> made, int player) {
+    /** The calls that are refused whatever the settings are, if the pad has a fault; the house is not the player's. */
+    private static void refused(Supplier<HostileHouses> made, int notOwn) {
         for (int wrong : new int[] {LEAST, -1, 12, MOST}) {
             leaves("move(" + wrong + ")", made, x -> x.move(wrong), -1);
             leaves("house(" + wrong + ", 0)", made, x -> x.house(wrong, 0), -1);
             leaves("ifMove(" + wrong + ", 0)", made, x -> x.ifMove(wrong, 0), -1);
             leaves("moved(" + wrong + ")", made, x -> x.moved(wrong), -1);
         }
-        int notOwn = player == 0 ? 6 : 0;
         leaves("move(" + notOwn + ")", made, x -> x.move(notOwn), -5);
         leaves("ifMove(" + notOwn + ", 0)", made, x -> x.ifMove(notOwn, 0), -5);
         for (int wrong : new int[] {LEAST, -1, 14, MOST}) {
@@ -67,7 +67,9 @@ public final class TermsTest extends Checks {
             leaves("movesLeft(" + wrong + ")", made, x -> x.movesLeft(wrong), -2);
             leaves("save(" + wrong + ")", made, x -> x.save(wrong), -2);
             leaves("restore(" + wrong + ")", made, x -> x.restore(wrong), -2);
-            leaves("put(" + (wrong & 31) + ")", made, x -> x.put(wrong & 31), -2);
+        }
+        for (long wrong : new long[] {0, 32, 127, -1}) {
+            leaves("put(" + wrong + ")", made, x -> x.put(wrong), -2);
         }
         leaves("read()", made, HostileHouses::read, -3);
     }
@@ -258,8 +260,6 @@ public final class TermsTest extends Checks {
         stores(x, 0, 0);
         visits(x, 0, 0, 0, 0, 0, 0, 0, 0, 0, 0, 0, 0);
         due("count(0)", x.count(0), 0);
-        x = single(1);
-        due("player 0 to move, single seed", x.count(0), 0);
         x = at("0,0,0,0,0,0,0,0,0,0,0,1/9,9/1");
         due("player 1 to move", x.count(0), 1);
         x.begin();
