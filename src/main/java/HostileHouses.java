@@ -417,7 +417,8 @@ public final class HostileHouses {
 
         /** Sows all seeds of a house, pays the tolls, and returns the house of the last seed. */
         private int sowHand(int start, int[] settings, Report report) {
-            int toll = settings[TOLL];
+            // not below 0 whatever the settings are, so that the hand gets smaller each time round
+            int toll = Math.max(0, settings[TOLL]);
             int hand = seeds[start];
             seeds[start] = 0;
             int house = start;
@@ -538,7 +539,7 @@ public final class HostileHouses {
         }
 
         /** The worth of a position for the player to move. */
-        int valueOf(Position position, int[] settings, int depth) {
+        private int valueOf(Position position, int[] settings, int depth) {
             if (position.over || depth <= 0) {
                 return position.lead();
             }

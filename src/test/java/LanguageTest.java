@@ -10,7 +10,7 @@ import java.util.TreeSet;
 import java.util.regex.Matcher;
 import java.util.regex.Pattern;
 
-/** The face of the class, and those rules of LANGUAGE.md that can be seen without reading the code. */
+/** The face of the class, and those rules of LANGUAGE.md that are seen by members, words and one state that no call reaches. */
 public final class LanguageTest {
     private static int wrong;
 
@@ -95,9 +95,23 @@ public final class LanguageTest {
         }
     }
 
-    public static void main(String[] args) throws IOException {
+    /** Sowing ends by its own lines: a toll below 0, which no call can set, would let the hand grow. */
+    private static void tollBelowZero() throws ReflectiveOperationException {
+        HostileHouses game = Checks.withHostileHouses(6, 1, 0);
+        Field now = HostileHouses.class.getDeclaredField("now");
+        now.setAccessible(true);
+        Field settings = now.get(game).getClass().getDeclaredField("settings");
+        settings.setAccessible(true);
+        ((int[]) settings.get(now.get(game)))[HostileHouses.TOLL] = -1;
+        due("TOLL -1: move(4)", game.move(4), 1);
+        due("TOLL -1: last(2)", game.last(2), 10);
+        due("TOLL -1: last(4)", game.last(4), 0);
+    }
+
+    public static void main(String[] args) throws IOException, ReflectiveOperationException {
         members();
         words();
+        tollBelowZero();
         System.out.println(wrong == 0 ? "the face and the language are as due" : wrong + " things are not as due");
         if (wrong != 0) {
             System.exit(1);
